@@ -743,7 +743,10 @@ public final class ElementFiles {
                     good = readText(e);
                     break;
                 case IS_BLOCK:
-                    good = readFrames(e, readBlockHead(e));
+                    good = readSizes(e, readBlockHead(e));
+                    if (good) {
+                        storeRest(e);
+                    }
                     break;
                 case IS_CHECK:
                     good = readCheck(e);
@@ -786,7 +789,7 @@ public final class ElementFiles {
             return true;
         }
 
-        /** Reads what stands before the sizes; answers how many frames there are, 0 for a fault. */
+        /** Reads what stands before the sizes; answers how many frames are told, below 1 for a fault. */
         private int readBlockHead(Element e) {
             long track = nextVint();
             if (track < 1 || track > MOST_TRACK || end - place < 3) {
@@ -802,17 +805,6 @@ public final class ElementFiles {
             return lacing == 0 ? 1 : nextByte() + 1;
         }
 
-        private boolean readFrames(Element e, int frames) {
-            if (frames < 1 || frames > MOST_FRAMES) {
-                return false;
-            }
-            if (e.lacing == 2 ? !shareEvenly(e, frames) : !readSizes(e, frames)) {
-                return false;
-            }
-            storeRest(e);
-            return true;
-        }
-
         private boolean shareEvenly(Element e, int frames) {
             if (frames < 1 || (end - place) % frames != 0) {
                 return false;
@@ -825,6 +817,12 @@ public final class ElementFiles {
 
         /** Reads the sizes of the frames; the place is then where the frames begin. */
         private boolean readSizes(Element e, int frames) {
+            if (frames < 1 || frames > MOST_FRAMES) {
+                return false;
+            }
+            if (e.lacing == 2) {
+                return shareEvenly(e, frames);
+            }
             int sum = 0;
             long size = 0;
             for (int i = 0; i < frames - 1; i++) {

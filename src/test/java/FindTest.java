@@ -118,6 +118,21 @@ public final class FindTest {
         Due.is("the old CUE stays", y.id(13), Due.CUE);
         Due.is("it has no child", y.value(13), 0);
         Due.is("children stay", y.value(0), 2);
+        // CUEs that stand first are taken out too, so there is room for others.
+        ElementFiles z = new ElementFiles();
+        z.make(-1, Due.SEGMENT, 0);
+        z.make(0, Due.CUE, 0);
+        z.make(1, Due.WHEN, 5);
+        z.make(0, Due.CLUSTER, 0);
+        for (int i = 0; i < 11; i++) {
+            Due.addBlock(z, 3, 1, i, true);
+        }
+        for (int i = 0; i < 3; i++) {
+            z.make(-1, Due.VOID, i);
+        }
+        Due.is("60 elements, not 62", z.index(0), 11);
+        Due.is("the last CUE", z.value(56), 10);
+        Due.is("the last one", z.value(59), 2);
     }
 
     private static void seeking() {

@@ -105,6 +105,8 @@ public final class ReadTest {
     private static void sizes() {
         bad(HEAD, ElementFiles.CUT, 0);
         bad(HEAD + "82 4286 81 05", ElementFiles.CUT, 5);
+        // The byte behind the master's end is no byte of the size.
+        bad(HEAD + "82 4286 00", ElementFiles.CUT, 5);
         bad(HEAD + "00", ElementFiles.FORM, 0);
         bad(HEAD + "83 4286 00", ElementFiles.FORM, 5);
         bad(HEAD + "40", ElementFiles.CUT, 0);
@@ -308,6 +310,8 @@ public final class ReadTest {
         badBlock("81 0000 06");
         badBlock("81 0000 02 08 0000000000000000");
         badBlock("81 0000 04 08");
+        // The byte behind the block does not tell how many frames there are.
+        bad(SEGMENT + "FF " + CLUSTER + "FF A384 81000004 00", ElementFiles.DATA, 10);
         badBlock("81 0000 06 FF");
         ElementFiles x = block("81 0000 00 0A0B0C");
         Due.is("read", x.read(), 3);
@@ -391,5 +395,12 @@ public final class ReadTest {
         Due.is("read of nothing", x.read(), 0);
         Due.is("where after a good read", x.where(), ElementFiles.NONE);
         Due.is("nothing is left", x.id(0), ElementFiles.NONE);
+        // A read begins at the top, also when the one before ended within a master.
+        Due.feed(x, SEGMENT + "FF 0F");
+        Due.is("a fault within a SEGMENT", x.read(), ElementFiles.FORM);
+        x.take(false);
+        Due.feed(x, "AE80");
+        Due.is("a TRACK at the top", x.read(), ElementFiles.MISPLACED);
+        Due.is("where", x.where(), 0);
     }
 }
