@@ -40,13 +40,6 @@ public final class BlockEdgeTest {
         };
     }
 
-    private static Edge.Run both(Edge.Run first, Edge.Run second) {
-        return x -> {
-            first.on(x);
-            second.on(x);
-        };
-    }
-
     // Promise 10: "NONE when n is not 0 .. 300."
     private static void frameSizes() {
         for (int n : new int[] {-1, -2, -300, 301, 302, 400, 401, 256 * 256, MIN, MIN + 1, MAX}) {
@@ -55,7 +48,7 @@ public final class BlockEdgeTest {
         }
         for (int n : new int[] {0, 1, 2, 255, 256, 299, 300}) {
             Edge.taken("frame of " + n, CLUSTER, x -> x.frame(n, 0), 1);
-            Edge.taken("its size", both(hand(n), x -> x.block(1, 1, 0, true, 0)), x -> x.part(2, 0), n);
+            Edge.taken("its size", Edge.both(hand(n), x -> x.block(1, 1, 0, true, 0)), x -> x.part(2, 0), n);
         }
     }
 
@@ -68,7 +61,7 @@ public final class BlockEdgeTest {
         for (int first = 0; first < 256; first++) {
             int same = first;
             Edge.taken("frame from " + first, CLUSTER, x -> x.frame(1, same), 1);
-            Edge.taken("its byte", both(CLUSTER, x -> {
+            Edge.taken("its byte", Edge.both(CLUSTER, x -> {
                 x.frame(1, same);
                 x.block(1, 1, 0, true, 0);
             }), x -> x.sample(2, 0, 0), first);
@@ -84,7 +77,7 @@ public final class BlockEdgeTest {
         Edge.refused("the ninth, of no bytes", eight, x -> x.frame(0, 0), ElementFiles.ROOM);
         Edge.refused("the ninth, too large", eight, x -> x.frame(301, 0), ElementFiles.NONE);
         Edge.refused("the ninth, from 256", eight, x -> x.frame(0, 256), ElementFiles.NONE);
-        Edge.taken("the first of the next ones", both(eight, x -> x.block(1, 1, 0, true, 1)),
+        Edge.taken("the first of the next ones", Edge.both(eight, x -> x.block(1, 1, 0, true, 1)),
                 x -> x.frame(300, 0), 1);
     }
 
@@ -102,7 +95,7 @@ public final class BlockEdgeTest {
         Edge.refused("one more, as the eighth", hand(57, 57, 57, 57, 57, 57, 57), x -> x.frame(2, 0),
                 ElementFiles.ROOM);
         // A refused one has not taken any of the 400 bytes.
-        Edge.taken("100 behind a refused one", both(hand(300), x -> x.frame(101, 0)), x -> x.frame(100, 0), 2);
+        Edge.taken("100 behind a refused one", Edge.both(hand(300), x -> x.frame(101, 0)), x -> x.frame(100, 0), 2);
     }
 
     // Promise 10: "first, first + 1, .. (modulo 256)."
@@ -125,12 +118,12 @@ public final class BlockEdgeTest {
             Edge.refused("block in " + k, Edge::rich, x -> x.block(k, 1, 0, true, 1), ElementFiles.NONE);
         }
         for (int k : new int[] {-1, 0, 2, 3, 4, 5, 6, 7}) {
-            Edge.refused("block in " + k, both(Edge::rare, x -> x.frame(1, 1)), x -> x.block(k, 1, 0, true, 1),
+            Edge.refused("block in " + k, Edge.both(Edge::rare, x -> x.frame(1, 1)), x -> x.block(k, 1, 0, true, 1),
                     ElementFiles.NONE);
         }
         Edge.refused("block in none", x -> x.frame(1, 1), x -> x.block(0, 1, 0, true, 0), ElementFiles.NONE);
         Edge.taken("block in the CLUSTER", Edge::rich, x -> x.block(7, 1, 0, true, 1), 10);
-        Edge.taken("block in one that was read", both(Edge::rare, x -> x.frame(1, 1)),
+        Edge.taken("block in one that was read", Edge.both(Edge::rare, x -> x.frame(1, 1)),
                 x -> x.block(1, 1, 0, true, 1), 4);
     }
 
@@ -142,7 +135,7 @@ public final class BlockEdgeTest {
         for (int track = 1; track <= 126; track++) {
             int same = track;
             Edge.taken("track " + track, Edge::rich, x -> x.block(7, same, 0, true, 1), 10);
-            Edge.taken("and it is so", both(Edge::rich, x -> x.block(7, same, 0, true, 1)), x -> x.detail(10, 0),
+            Edge.taken("and it is so", Edge.both(Edge::rich, x -> x.block(7, same, 0, true, 1)), x -> x.detail(10, 0),
                     track);
         }
     }
@@ -154,7 +147,7 @@ public final class BlockEdgeTest {
         }
         for (int time : new int[] {-32768, -32767, -1, 0, 1, 32766, 32767}) {
             Edge.taken("time " + time, Edge::rich, x -> x.block(7, 1, time, true, 1), 10);
-            Edge.taken("and it is so", both(Edge::rich, x -> x.block(7, 1, time, true, 1)), x -> x.detail(10, 1),
+            Edge.taken("and it is so", Edge.both(Edge::rich, x -> x.block(7, 1, time, true, 1)), x -> x.detail(10, 1),
                     time);
         }
     }
@@ -168,14 +161,14 @@ public final class BlockEdgeTest {
         for (int lacing = 0; lacing <= 3; lacing++) {
             int same = lacing;
             Edge.taken("lacing " + lacing, hand(5), x -> x.block(1, 1, 0, true, same), 2);
-            Edge.taken("and it is so", both(hand(5), x -> x.block(1, 1, 0, true, same)), x -> x.detail(2, 3),
+            Edge.taken("and it is so", Edge.both(hand(5), x -> x.block(1, 1, 0, true, same)), x -> x.detail(2, 3),
                     lacing);
         }
     }
 
     // Promise 11: "DATA when .. there are no frames."
     private static void blockWithoutFrames() {
-        Edge.Run used = both(hand(5), x -> x.block(1, 1, 0, true, 0));
+        Edge.Run used = Edge.both(hand(5), x -> x.block(1, 1, 0, true, 0));
         for (int lacing = 0; lacing <= 3; lacing++) {
             int same = lacing;
             Edge.refused("no frames, lacing " + lacing, CLUSTER, x -> x.block(1, 1, 0, true, same), ElementFiles.DATA);
@@ -197,7 +190,7 @@ public final class BlockEdgeTest {
             for (int lacing = 1; lacing <= 3; lacing++) {
                 int same = lacing;
                 Edge.taken(n + " with lacing " + lacing, hand(some), x -> x.block(1, 1, 0, true, same), 2);
-                Edge.taken("how many", both(hand(some), x -> x.block(1, 1, 0, true, same)), x -> x.value(2), n);
+                Edge.taken("how many", Edge.both(hand(some), x -> x.block(1, 1, 0, true, same)), x -> x.value(2), n);
             }
         }
     }
@@ -221,14 +214,14 @@ public final class BlockEdgeTest {
     private static void blockBesideSixty() {
         for (int there = 58; there <= 60; there++) {
             int voids = there - 2;
-            Edge.Run before = both(hand(3), x -> Edge.voids(x, voids));
+            Edge.Run before = Edge.both(hand(3), x -> Edge.voids(x, voids));
             if (there < 60) {
                 Edge.taken("block beside " + there, before, x -> x.block(1, 1, 0, true, 0), 2);
             } else {
                 Edge.refused("block beside 60", before, x -> x.block(1, 1, 0, true, 0), ElementFiles.ROOM);
             }
         }
-        Edge.refused("an empty block beside 60", both(hand(0), x -> Edge.voids(x, 58)),
+        Edge.refused("an empty block beside 60", Edge.both(hand(0), x -> Edge.voids(x, 58)),
                 x -> x.block(1, 1, 0, true, 0), ElementFiles.ROOM);
     }
 
@@ -244,17 +237,17 @@ public final class BlockEdgeTest {
     private static void blockBeyond1200() {
         for (int there = 1198; there <= 1200; there++) {
             int rest = there - 800;
-            Edge.Run before = both(CLUSTER, x -> {
+            Edge.Run before = Edge.both(CLUSTER, x -> {
                 add(x, 1, 400);
                 add(x, 1, 400);
                 add(x, 1, rest);
             });
             for (int n = 0; n <= 3; n++) {
                 int same = n;
-                Edge.Run one = both(before, x -> x.frame(same, 9));
+                Edge.Run one = Edge.both(before, x -> x.frame(same, 9));
                 if (there + n <= 1200) {
                     Edge.taken(n + " beside " + there, one, x -> x.block(1, 1, 0, true, 0), 5);
-                    Edge.taken("its last byte", both(one, x -> x.block(1, 1, 0, true, 0)),
+                    Edge.taken("its last byte", Edge.both(one, x -> x.block(1, 1, 0, true, 0)),
                             x -> x.sample(5, 0, same - 1), n == 0 ? ElementFiles.NONE : 9 + n - 1);
                 } else {
                     Edge.refused(n + " beside " + there, one, x -> x.block(1, 1, 0, true, 0), ElementFiles.ROOM);
@@ -263,7 +256,7 @@ public final class BlockEdgeTest {
             Due.is("room beside " + there, Edge.room(before), 1200 - there);
         }
         // A block that was refused has not taken any of the bytes.
-        Edge.Run refused = both(CLUSTER, x -> {
+        Edge.Run refused = Edge.both(CLUSTER, x -> {
             add(x, 1, 400);
             add(x, 1, 400);
             add(x, 1, 300);
@@ -271,7 +264,7 @@ public final class BlockEdgeTest {
         });
         Edge.taken("none of the frames at hand were lost", refused, x -> x.frame(0, 0), 3);
         Edge.taken("other elements have room", refused, x -> x.make(1, Due.VOID, 64), 5);
-        Edge.taken("after clear()", both(refused, both(ElementFiles::clear, CLUSTER)),
+        Edge.taken("after clear()", Edge.both(refused, Edge.both(ElementFiles::clear, CLUSTER)),
                 x -> x.block(1, 1, 0, true, 1), 2);
     }
 
@@ -291,14 +284,14 @@ public final class BlockEdgeTest {
                 x.read();
             };
             Due.is("room after reading " + file[0], Edge.room(read), Integer.parseInt(file[1]));
-            Due.is("room after reading it again", Edge.room(both(read, ElementFiles::read)),
+            Due.is("room after reading it again", Edge.room(Edge.both(read, ElementFiles::read)),
                     Integer.parseInt(file[1]));
-            Due.is("room after clear()", Edge.room(both(read, ElementFiles::clear)), 1200);
+            Due.is("room after clear()", Edge.room(Edge.both(read, ElementFiles::clear)), 1200);
             // What there was before the read() does not count any more.
-            Due.is("room after blocks and reading", Edge.room(both(both(CLUSTER, x -> add(x, 1, 400)), read)),
+            Due.is("room after blocks and reading", Edge.room(Edge.both(Edge.both(CLUSTER, x -> add(x, 1, 400)), read)),
                     Integer.parseInt(file[1]));
             // What is made after it does.
-            Due.is("room after reading and a block", Edge.room(both(read, x -> {
+            Due.is("room after reading and a block", Edge.room(Edge.both(read, x -> {
                 x.make(-1, Due.SEGMENT, 0);
                 for (int k = 0; x.id(k) >= 0; k++) {
                     if (x.id(k) == Due.SEGMENT && x.value(k) == 0) {
@@ -326,8 +319,8 @@ public final class BlockEdgeTest {
             };
             Edge.taken("a fault", y -> Due.feed(y, file[0]), x -> x.read() < 0 ? 1 : 0, 1);
             Due.is("room after the fault in " + file[0], Edge.room(read), Integer.parseInt(file[1]));
-            Due.is("room after clear()", Edge.room(both(read, ElementFiles::clear)), 1200);
-            Due.is("room after an empty read()", Edge.room(both(read, x -> {
+            Due.is("room after clear()", Edge.room(Edge.both(read, ElementFiles::clear)), 1200);
+            Due.is("room after an empty read()", Edge.room(Edge.both(read, x -> {
                 x.take(false);
                 x.read();
             })), 1200);
@@ -337,14 +330,14 @@ public final class BlockEdgeTest {
     // ".. that were made or read since ..", so that neither taking out nor any other call gives room again.
     private static void roomAfterOtherCalls() {
         Due.is("room of rare", Edge.room(Edge::rare), 1191);
-        Due.is("room when a CUE with a FOREIGN one is taken out", Edge.room(both(Edge::rare, x -> x.index(0))), 1191);
-        Due.is("room after writing", Edge.room(both(Edge::rare, x -> x.write(true))), 1191);
-        Due.is("room after taking", Edge.room(both(Edge::rare, x -> x.take(true))), 1191);
-        Due.is("room after feeding", Edge.room(both(Edge::rare, x -> x.feed(0, 8))), 1191);
-        Due.is("room after making", Edge.room(both(Edge::rare, x -> x.make(-1, Due.VOID, 64))), 1191);
-        Due.is("room after searching", Edge.room(both(Edge::rare, x -> x.jump(0, x.seek(0, 1, 1), 1))), 1191);
+        Due.is("room when a CUE with a FOREIGN one is taken out", Edge.room(Edge.both(Edge::rare, x -> x.index(0))), 1191);
+        Due.is("room after writing", Edge.room(Edge.both(Edge::rare, x -> x.write(true))), 1191);
+        Due.is("room after taking", Edge.room(Edge.both(Edge::rare, x -> x.take(true))), 1191);
+        Due.is("room after feeding", Edge.room(Edge.both(Edge::rare, x -> x.feed(0, 8))), 1191);
+        Due.is("room after making", Edge.room(Edge.both(Edge::rare, x -> x.make(-1, Due.VOID, 64))), 1191);
+        Due.is("room after searching", Edge.room(Edge.both(Edge::rare, x -> x.jump(0, x.seek(0, 1, 1), 1))), 1191);
         // Frames at hand count only when a block gets them.
-        Edge.Run most = both(CLUSTER, x -> {
+        Edge.Run most = Edge.both(CLUSTER, x -> {
             add(x, 1, 400);
             add(x, 1, 400);
             x.frame(300, 0);
@@ -355,8 +348,8 @@ public final class BlockEdgeTest {
 
     // "of several answers below 0 that fit, it is the one that is named first": NONE, DATA, ROOM.
     private static void answersInOrder() {
-        Edge.Run sixty = both(hand(3), x -> Edge.voids(x, 58));
-        Edge.Run filled = both(CLUSTER, x -> {
+        Edge.Run sixty = Edge.both(hand(3), x -> Edge.voids(x, 58));
+        Edge.Run filled = Edge.both(CLUSTER, x -> {
             add(x, 1, 400);
             add(x, 1, 400);
             add(x, 1, 400);
@@ -370,30 +363,30 @@ public final class BlockEdgeTest {
             Edge.refused("DATA (lacing) before ROOM", run, x -> x.block(1, 1, 0, true, 4), ElementFiles.DATA);
             Edge.refused("ROOM at last", run, x -> x.block(1, 1, 0, true, 0), ElementFiles.ROOM);
         }
-        Edge.refused("DATA (no frames) before ROOM", both(CLUSTER, x -> Edge.voids(x, 58)),
+        Edge.refused("DATA (no frames) before ROOM", Edge.both(CLUSTER, x -> Edge.voids(x, 58)),
                 x -> x.block(1, 1, 0, true, 1), ElementFiles.DATA);
-        Edge.refused("DATA (two frames) before ROOM", both(sixty, x -> x.frame(3, 1)),
+        Edge.refused("DATA (two frames) before ROOM", Edge.both(sixty, x -> x.frame(3, 1)),
                 x -> x.block(1, 1, 0, true, 0), ElementFiles.DATA);
-        Edge.refused("DATA (uneven) before ROOM", both(sixty, x -> x.frame(4, 1)),
+        Edge.refused("DATA (uneven) before ROOM", Edge.both(sixty, x -> x.frame(4, 1)),
                 x -> x.block(1, 1, 0, true, 2), ElementFiles.DATA);
         Edge.refused("NONE without frames", CLUSTER, x -> x.block(0, 1, 0, true, 1), ElementFiles.NONE);
     }
 
     // Promise 11: "with the frames at hand, of which there are none then."
     private static void framesGoToTheBlock() {
-        Edge.Run two = both(CLUSTER, x -> {
+        Edge.Run two = Edge.both(CLUSTER, x -> {
             x.frame(2, 254);
             x.frame(0, 3);
             x.frame(1, 77);
             x.block(1, 126, -32768, false, 3);
         });
         Edge.taken("none at hand then", two, x -> x.frame(300, 0), 1);
-        Edge.taken("none at hand then", both(two, x -> x.frame(300, 0)), x -> x.frame(100, 0), 2);
+        Edge.taken("none at hand then", Edge.both(two, x -> x.frame(300, 0)), x -> x.frame(100, 0), 2);
         Edge.refused("none at hand then", two, x -> x.block(1, 1, 0, true, 1), ElementFiles.DATA);
         Due.is("the block", Edge.tree(Edge.made(two)), "18538067@-1=1(1 ) 1F43B675@0=1(2 ) "
                 + "A3@1=3(2 0 1 126 -32768 0 3 /254 255 //77 ) ");
         // The last child of its CLUSTER, before the next CLUSTER's elements.
-        ElementFiles x = Edge.made(both(two, y -> {
+        ElementFiles x = Edge.made(Edge.both(two, y -> {
             y.make(0, Due.CLUSTER, 0);
             y.make(3, Due.TIME, 1);
             y.make(1, Due.TIME, 2);

@@ -2,6 +2,8 @@
 public final class CallEdgeTest {
     private static final int MIN = Integer.MIN_VALUE;
     private static final int MAX = Integer.MAX_VALUE;
+    private static final int[] IDS = {Due.HEAD, Due.SEGMENT, Due.VERSION, Due.TYPE, Due.TRACK, Due.NUMBER, Due.NAME,
+        Due.CLUSTER, Due.TIME, Due.BLOCK, Due.CUE, Due.WHEN, Due.WHOSE, Due.WHICH, Due.CHECK, Due.VOID, 0x81};
 
     public static void main(String[] args) {
         states();
@@ -15,6 +17,7 @@ public final class CallEdgeTest {
         clearEdges();
         makeParents();
         makeMisplaced();
+        makeInLeaves();
         makeChecks();
         makeVoids();
         makeNumbers();
@@ -269,15 +272,37 @@ public final class CallEdgeTest {
                         ElementFiles.MISPLACED);
             }
         }
-        // In what is no master, nothing may stand.
-        for (int leaf : new int[] {1, 2, 5, 6, 8, 9, 11, 12}) {
-            for (int id : new int[] {Due.VOID, Due.CHECK, Due.VERSION, Due.HEAD, Due.BLOCK, Due.TIME}) {
-                Edge.refused(String.format("make %X in %d", id, leaf), Edge::rich, x -> x.make(leaf, id, 0),
-                        ElementFiles.MISPLACED);
+    }
+
+    // In what is no master, nothing may stand.
+    private static void makeInLeaves() {
+        Edge.Run all = x -> {
+            Edge.rich(x);
+            x.make(4, Due.NUMBER, 1);
+            x.make(11, Due.WHOSE, 1);
+            x.make(11, Due.WHICH, 1);
+        };
+        ElementFiles made = Edge.made(all);
+        int leaves = 0;
+        for (int k = 0; made.id(k) >= 0; k++) {
+            int leaf = k;
+            int kind = made.id(k);
+            boolean master = kind == Due.HEAD || kind == Due.SEGMENT || kind == Due.TRACK || kind == Due.CLUSTER
+                    || kind == Due.CUE;
+            if (!master) {
+                leaves++;
+                for (int id : IDS) {
+                    Edge.refused(String.format("make %X in %X", id, kind), all, x -> x.make(leaf, id, 0),
+                            ElementFiles.MISPLACED);
+                }
             }
         }
-        for (int leaf : new int[] {2, 3, 5, 6}) {
-            Edge.refused("make VOID in " + leaf, Edge::rare, x -> x.make(leaf, Due.VOID, 0), ElementFiles.MISPLACED);
+        Due.is("leaves of all kinds but FOREIGN", leaves, 11);
+        for (int leaf : new int[] {3, 5, 6}) {
+            for (int id : IDS) {
+                Edge.refused(String.format("make %X in FOREIGN %d", id, leaf), Edge::rare, x -> x.make(leaf, id, 0),
+                        ElementFiles.MISPLACED);
+            }
         }
         Edge.taken("VOID in a CUE that was read", Edge::rare, x -> x.make(4, Due.VOID, 0), 6);
     }

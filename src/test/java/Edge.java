@@ -26,6 +26,13 @@ final class Edge {
         return x;
     }
 
+    static Run both(Run first, Run second) {
+        return x -> {
+            first.on(x);
+            second.on(x);
+        };
+    }
+
     /** The call is answered so; what it changes is the test's own affair. */
     static void taken(String what, Run before, Call call, long due) {
         Due.is(what, call.on(made(before)), due);

@@ -25,13 +25,6 @@ public final class FindEdgeTest {
         Due.finish();
     }
 
-    private static Edge.Run both(Edge.Run first, Edge.Run second) {
-        return x -> {
-            first.on(x);
-            second.on(x);
-        };
-    }
-
     /** A SEGMENT 0 with a CLUSTER 1 and so many blocks of one byte in it, key blocks when told. */
     private static Edge.Run blocks(int n, boolean key) {
         return x -> {
@@ -84,7 +77,7 @@ public final class FindEdgeTest {
         Due.is("the others stay", Due.shape(y), "18538067@-1 18538067@-1 BB@1");
         Due.is("there is room again", y.make(-1, Due.VOID, 0), 3);
         // Twice is the same as once.
-        ElementFiles w = Edge.made(both(Edge::rich, z -> z.index(3)));
+        ElementFiles w = Edge.made(Edge.both(Edge::rich, z -> z.index(3)));
         String tree = Edge.tree(w);
         Due.is("again", w.index(3), 1);
         Due.is("the same tree", Edge.tree(w), tree);
@@ -149,7 +142,7 @@ public final class FindEdgeTest {
     }
 
     private static void momentIs(long due, int time, long... times) {
-        ElementFiles x = Edge.made(both(timed(time, times), y -> y.index(0)));
+        ElementFiles x = Edge.made(Edge.both(timed(time, times), y -> y.index(0)));
         Due.is("the moment", cue(x, 3 + times.length), due + " 1 0");
         Edge.Run run = timed(time, times);
         Edge.taken("seek at it", run, y -> y.seek(0, 1, due), 2);
@@ -178,7 +171,7 @@ public final class FindEdgeTest {
         momentIs(Long.MAX_VALUE, -1, Long.MIN_VALUE);
         momentIs(Long.MAX_VALUE - 32767, -32768, Long.MIN_VALUE);
         // Another CLUSTER's TIME is not its own.
-        ElementFiles x = Edge.made(both(timed(4), y -> {
+        ElementFiles x = Edge.made(Edge.both(timed(4), y -> {
             y.make(0, Due.CLUSTER, 0);
             y.make(3, Due.TIME, 1000);
             Due.addBlock(y, 3, 1, 6, true);
@@ -193,34 +186,48 @@ public final class FindEdgeTest {
         // 2 + 5 * keys + others elements.
         for (int others = 2; others <= 4; others++) {
             int voids = others;
-            Edge.Run run = both(blocks(11, true), x -> Edge.voids(x, voids));
+            Edge.Run run = Edge.both(blocks(11, true), x -> Edge.voids(x, voids));
             if (others <= 3) {
                 Edge.taken((57 + others) + " elements", run, x -> x.index(0), 11);
-                Edge.taken("its last element", both(run, x -> x.index(0)), x -> x.id(56 + voids), Due.VOID);
+                Edge.taken("its last element", Edge.both(run, x -> x.index(0)), x -> x.id(56 + voids), Due.VOID);
             } else {
                 Edge.refused("61 elements", run, x -> x.index(0), ElementFiles.ROOM);
             }
         }
         // The CUEs that go do not count, wherever they stand.
-        Edge.Run with = both(blocks(11, true), x -> {
+        Edge.Run with = Edge.both(blocks(11, true), x -> {
             for (int i = 0; i < 6; i++) {
                 x.make(x.make(0, Due.CUE, 0), Due.WHEN, i);
             }
             Edge.voids(x, 3);
         });
         Edge.taken("60 elements without the old CUEs", with, x -> x.index(0), 11);
-        Edge.refused("61 elements without them", both(with, x -> x.make(0, Due.VOID, 0)), x -> x.index(0),
+        Edge.refused("61 elements without them", Edge.both(with, x -> x.make(0, Due.VOID, 0)), x -> x.index(0),
+                ElementFiles.ROOM);
+        Edge.Run first = x -> {
+            x.make(-1, Due.SEGMENT, 0);
+            x.make(0, Due.CUE, 0);
+            x.make(1, Due.WHEN, 5);
+            x.make(1, Due.VOID, 5);
+            x.make(0, Due.CLUSTER, 0);
+            for (int i = 0; i < 11; i++) {
+                Due.addBlock(x, 4, 1, i, true);
+            }
+            Edge.voids(x, 3);
+        };
+        Edge.taken("60 elements without a CUE that stands first", first, x -> x.index(0), 11);
+        Edge.refused("61 elements without it", Edge.both(first, x -> x.make(0, Due.VOID, 0)), x -> x.index(0),
                 ElementFiles.ROOM);
         // Those of another SEGMENT do.
-        Edge.Run other = both(blocks(11, true), x -> {
+        Edge.Run other = Edge.both(blocks(11, true), x -> {
             x.make(-1, Due.SEGMENT, 0);
             x.make(13, Due.CUE, 0);
             x.make(13, Due.VOID, 0);
         });
         Edge.taken("60 elements with another SEGMENT's CUE", other, x -> x.index(0), 11);
-        Edge.refused("61 elements with another SEGMENT's CUEs", both(other, x -> x.make(13, Due.CUE, 0)),
+        Edge.refused("61 elements with another SEGMENT's CUEs", Edge.both(other, x -> x.make(13, Due.CUE, 0)),
                 x -> x.index(0), ElementFiles.ROOM);
-        Edge.taken("60 elements, and again", both(blocks(11, true), x -> {
+        Edge.taken("60 elements, and again", Edge.both(blocks(11, true), x -> {
             Edge.voids(x, 3);
             x.index(0);
         }), x -> x.index(0), 11);
@@ -228,12 +235,12 @@ public final class FindEdgeTest {
 
     // A refused index() takes out none of the old CUEs.
     private static void indexRefused() {
-        Edge.Run run = both(blocks(12, true), x -> {
+        Edge.Run run = Edge.both(blocks(12, true), x -> {
             x.make(0, Due.CUE, 0);
             x.make(14, Due.WHICH, 3);
         });
         Edge.refused("62 elements", run, x -> x.index(0), ElementFiles.ROOM);
-        Edge.Run full = both(blocks(57, true), x -> x.make(0, Due.CUE, 0));
+        Edge.Run full = Edge.both(blocks(57, true), x -> x.make(0, Due.CUE, 0));
         Edge.refused("far too many", full, x -> x.index(0), ElementFiles.ROOM);
         ElementFiles x = Edge.made(run);
         x.index(0);
@@ -254,7 +261,7 @@ public final class FindEdgeTest {
 
     // Promise 20: "that has the track."
     private static void seekTracks() {
-        Edge.Run run = both(blocks(0, true), x -> {
+        Edge.Run run = Edge.both(blocks(0, true), x -> {
             Due.addBlock(x, 1, 1, 0, true);
             Due.addBlock(x, 1, 126, 0, true);
             Due.addBlock(x, 1, 2, 0, false);
@@ -265,7 +272,7 @@ public final class FindEdgeTest {
             Edge.looked("track " + track, run, x -> x.seek(0, track, Long.MAX_VALUE), ElementFiles.NONE);
         }
         // Not a block of another SEGMENT.
-        Edge.Run two = both(run, x -> {
+        Edge.Run two = Edge.both(run, x -> {
             x.make(-1, Due.SEGMENT, 0);
             x.make(5, Due.CLUSTER, 0);
             Due.addBlock(x, 6, 1, 0, true);
@@ -277,7 +284,7 @@ public final class FindEdgeTest {
 
     // Promise 20: "The last key block .. whose moment is not above one."
     private static void seekMoments() {
-        Edge.Run run = both(blocks(0, true), x -> {
+        Edge.Run run = Edge.both(blocks(0, true), x -> {
             Due.addBlock(x, 1, 1, 50, true);
             Due.addBlock(x, 1, 1, 20, true);
             x.make(0, Due.CLUSTER, 0);
@@ -293,7 +300,7 @@ public final class FindEdgeTest {
     }
 
     private static void seekWraps() {
-        Edge.Run run = both(timed(1, Long.MAX_VALUE), x -> Due.addBlock(x, 1, 1, 0, true));
+        Edge.Run run = Edge.both(timed(1, Long.MAX_VALUE), x -> Due.addBlock(x, 1, 1, 0, true));
         Edge.looked("the least moment", run, x -> x.seek(0, 1, Long.MIN_VALUE), 2);
         Edge.looked("nearly the greatest moment", run, x -> x.seek(0, 1, Long.MAX_VALUE - 1), 2);
         Edge.looked("the greatest moment", run, x -> x.seek(0, 1, Long.MAX_VALUE), 4);
@@ -317,7 +324,7 @@ public final class FindEdgeTest {
 
     /** Three blocks 2, 3, 4 of track 1, and a CUE 5 with these numbers. */
     private static Edge.Run cued(long when, long whose, long which) {
-        return both(blocks(3, false), x -> {
+        return Edge.both(blocks(3, false), x -> {
             x.make(0, Due.CUE, 0);
             x.make(5, Due.WHEN, when);
             x.make(5, Due.WHOSE, whose);
@@ -368,21 +375,21 @@ public final class FindEdgeTest {
             x.make(6, Due.CLUSTER, 0);
             Due.addBlock(x, 7, 1, 0, true);
         };
-        Edge.looked("in the second CLUSTER", both(two, x -> x.make(5, Due.WHICH, 1)), x -> x.jump(0, 0, 0), 4);
-        Edge.looked("not in the second SEGMENT", both(two, x -> x.make(5, Due.WHICH, 2)), x -> x.jump(0, 0, 0),
+        Edge.looked("in the second CLUSTER", Edge.both(two, x -> x.make(5, Due.WHICH, 1)), x -> x.jump(0, 0, 0), 4);
+        Edge.looked("not in the second SEGMENT", Edge.both(two, x -> x.make(5, Due.WHICH, 2)), x -> x.jump(0, 0, 0),
                 ElementFiles.NONE);
     }
 
     // Promise 21: "(What a CUE lacks counts as 0.)"
     private static void jumpLacks() {
-        Edge.Run bare = both(blocks(3, false), x -> x.make(0, Due.CUE, 0));
+        Edge.Run bare = Edge.both(blocks(3, false), x -> x.make(0, Due.CUE, 0));
         Edge.looked("an empty CUE", bare, x -> x.jump(0, 0, 0), 2);
         Edge.looked("an empty CUE, before 0", bare, x -> x.jump(0, 0, -1), ElementFiles.NONE);
         Edge.looked("an empty CUE, track 1", bare, x -> x.jump(0, 1, 0), ElementFiles.NONE);
-        Edge.looked("WHICH alone", both(bare, x -> x.make(5, Due.WHICH, 2)), x -> x.jump(0, 0, 0), 4);
-        Edge.looked("WHOSE alone", both(bare, x -> x.make(5, Due.WHOSE, 2)), x -> x.jump(0, 2, 0), 2);
-        Edge.looked("WHEN alone", both(bare, x -> x.make(5, Due.WHEN, -7)), x -> x.jump(0, 0, -7), 2);
-        Edge.looked("a VOID and a CHECK", both(bare, x -> {
+        Edge.looked("WHICH alone", Edge.both(bare, x -> x.make(5, Due.WHICH, 2)), x -> x.jump(0, 0, 0), 4);
+        Edge.looked("WHOSE alone", Edge.both(bare, x -> x.make(5, Due.WHOSE, 2)), x -> x.jump(0, 2, 0), 2);
+        Edge.looked("WHEN alone", Edge.both(bare, x -> x.make(5, Due.WHEN, -7)), x -> x.jump(0, 0, -7), 2);
+        Edge.looked("a VOID and a CHECK", Edge.both(bare, x -> {
             x.make(5, Due.CHECK, 9);
             x.make(5, Due.VOID, 9);
         }), x -> x.jump(0, 0, 0), 2);
@@ -390,7 +397,7 @@ public final class FindEdgeTest {
 
     // Promise 21: "first WHOSE", "first WHEN", "first WHICH".
     private static void jumpFirsts() {
-        Edge.Run twice = both(cued(10, 7, 1), x -> {
+        Edge.Run twice = Edge.both(cued(10, 7, 1), x -> {
             x.make(5, Due.WHEN, 0);
             x.make(5, Due.WHOSE, 8);
             x.make(5, Due.WHICH, 2);
@@ -399,7 +406,7 @@ public final class FindEdgeTest {
         Edge.looked("the second WHEN", twice, x -> x.jump(0, 7, 9), ElementFiles.NONE);
         Edge.looked("the second WHOSE", twice, x -> x.jump(0, 8, 10), ElementFiles.NONE);
         // Those of the next CUE are not this one's.
-        Edge.Run next = both(blocks(3, false), x -> {
+        Edge.Run next = Edge.both(blocks(3, false), x -> {
             x.make(0, Due.CUE, 0);
             x.make(0, Due.CUE, 0);
             x.make(6, Due.WHOSE, 5);
@@ -411,7 +418,7 @@ public final class FindEdgeTest {
 
     // Promise 21: "of those .. the last one."
     private static void jumpLast() {
-        Edge.Run run = both(cued(50, 1, 0), x -> {
+        Edge.Run run = Edge.both(cued(50, 1, 0), x -> {
             x.make(0, Due.CUE, 0);
             x.make(9, Due.WHEN, 20);
             x.make(9, Due.WHOSE, 1);

@@ -343,26 +343,31 @@ public final class WriteEdgeTest {
         Edge.refused("1200 bytes of frames", blocks, x -> x.write(false), ElementFiles.LONG);
     }
 
-    // The sizes of two bytes make the difference: 641 bytes, but 640 or less live.
+    /** A SEGMENT, with a CLUSTER when told, and in it VOIDs that are written with so many bytes. */
+    private static Edge.Run within(boolean cluster, int n) {
+        return x -> {
+            int master = x.make(-1, Due.SEGMENT, 0);
+            if (cluster) {
+                master = x.make(0, Due.CLUSTER, 0);
+            }
+            for (int i = 0; i < 9; i++) {
+                x.make(master, Due.VOID, 64);
+            }
+            x.make(master, Due.VOID, n - 9 * 66 - 2);
+        };
+    }
+
+    // The same where sizes have two bytes each, or one when it is live.
     private static void tooLongLive() {
-        Edge.Run run = x -> {
-            x.make(-1, Due.SEGMENT, 0);
-            for (int i = 0; i < 9; i++) {
-                x.make(0, Due.VOID, 64);
-            }
-            x.make(0, Due.VOID, 39);
-        };
-        Edge.refused("641 bytes", run, x -> x.write(false), ElementFiles.LONG);
-        Edge.taken("640 bytes, live", run, x -> x.write(true), 640);
-        Edge.Run less = x -> {
-            x.make(-1, Due.SEGMENT, 0);
-            for (int i = 0; i < 9; i++) {
-                x.make(0, Due.VOID, 64);
-            }
-            x.make(0, Due.VOID, 38);
-        };
-        Edge.taken("640 bytes", less, x -> x.write(false), 640);
-        Edge.taken("639 bytes, live", less, x -> x.write(true), 639);
+        Edge.taken("640 bytes", within(false, 634), x -> x.write(false), 640);
+        Edge.taken("639 bytes, live", within(false, 634), x -> x.write(true), 639);
+        Edge.refused("641 bytes", within(false, 635), x -> x.write(false), ElementFiles.LONG);
+        Edge.taken("640 bytes, live", within(false, 635), x -> x.write(true), 640);
+        Edge.refused("641 bytes, live", within(false, 636), x -> x.write(true), ElementFiles.LONG);
+        Edge.taken("640 bytes", within(true, 628), x -> x.write(false), 640);
+        Edge.refused("641 bytes", within(true, 629), x -> x.write(false), ElementFiles.LONG);
+        Edge.taken("640 bytes, live", within(true, 630), x -> x.write(true), 640);
+        Edge.refused("641 bytes, live", within(true, 631), x -> x.write(true), ElementFiles.LONG);
     }
 
     // One byte more in a master makes its size longer by one, too: 639, and then 641.
