@@ -101,7 +101,7 @@ public final class BlockEdgeTest {
     // Promise 10: "first, first + 1, .. (modulo 256)."
     private static void frameBytes() {
         for (int first : new int[] {0, 1, 254, 255}) {
-            ElementFiles x = Edge.made(CLUSTER);
+            Bounded x = Edge.made(CLUSTER);
             x.frame(300, first);
             x.frame(3, first);
             x.block(1, 1, 0, true, 1);
@@ -226,7 +226,7 @@ public final class BlockEdgeTest {
     }
 
     /** A block of so many bytes, at most 400. */
-    private static long add(ElementFiles x, int cluster, int bytes) {
+    private static long add(Bounded x, int cluster, int bytes) {
         x.frame(Math.min(bytes, 300), 1);
         x.frame(Math.max(bytes - 300, 0), 1);
         return x.block(cluster, 1, 0, true, 1);
@@ -264,7 +264,7 @@ public final class BlockEdgeTest {
         });
         Edge.taken("none of the frames at hand were lost", refused, x -> x.frame(0, 0), 3);
         Edge.taken("other elements have room", refused, x -> x.make(1, Due.VOID, 64), 5);
-        Edge.taken("after clear()", Edge.both(refused, Edge.both(ElementFiles::clear, CLUSTER)),
+        Edge.taken("after clear()", Edge.both(refused, Edge.both(Bounded::clear, CLUSTER)),
                 x -> x.block(1, 1, 0, true, 1), 2);
     }
 
@@ -284,9 +284,9 @@ public final class BlockEdgeTest {
                 x.read();
             };
             Due.is("room after reading " + file[0], Edge.room(read), Integer.parseInt(file[1]));
-            Due.is("room after reading it again", Edge.room(Edge.both(read, ElementFiles::read)),
+            Due.is("room after reading it again", Edge.room(Edge.both(read, Bounded::read)),
                     Integer.parseInt(file[1]));
-            Due.is("room after clear()", Edge.room(Edge.both(read, ElementFiles::clear)), 1200);
+            Due.is("room after clear()", Edge.room(Edge.both(read, Bounded::clear)), 1200);
             // What there was before the read() does not count any more.
             Due.is("room after blocks and reading", Edge.room(Edge.both(Edge.both(CLUSTER, x -> add(x, 1, 400)), read)),
                     Integer.parseInt(file[1]));
@@ -319,7 +319,7 @@ public final class BlockEdgeTest {
             };
             Edge.taken("a fault", y -> Due.feed(y, file[0]), x -> x.read() < 0 ? 1 : 0, 1);
             Due.is("room after the fault in " + file[0], Edge.room(read), Integer.parseInt(file[1]));
-            Due.is("room after clear()", Edge.room(Edge.both(read, ElementFiles::clear)), 1200);
+            Due.is("room after clear()", Edge.room(Edge.both(read, Bounded::clear)), 1200);
             Due.is("room after an empty read()", Edge.room(Edge.both(read, x -> {
                 x.take(false);
                 x.read();
@@ -386,7 +386,7 @@ public final class BlockEdgeTest {
         Due.is("the block", Edge.tree(Edge.made(two)), "18538067@-1=1(1 ) 1F43B675@0=1(2 ) "
                 + "A3@1=3(2 0 1 126 -32768 0 3 /254 255 //77 ) ");
         // The last child of its CLUSTER, before the next CLUSTER's elements.
-        ElementFiles x = Edge.made(Edge.both(two, y -> {
+        Bounded x = Edge.made(Edge.both(two, y -> {
             y.make(0, Due.CLUSTER, 0);
             y.make(3, Due.TIME, 1);
             y.make(1, Due.TIME, 2);

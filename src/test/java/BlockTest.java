@@ -14,7 +14,7 @@ public final class BlockTest {
     }
 
     private static void frames() {
-        ElementFiles x = Due.withCluster();
+        Bounded x = Due.withCluster();
         Due.is("n = -1", x.frame(-1, 0), ElementFiles.NONE);
         Due.is("n = 301", x.frame(301, 0), ElementFiles.NONE);
         Due.is("n = MIN", x.frame(Integer.MIN_VALUE, 0), ElementFiles.NONE);
@@ -43,7 +43,7 @@ public final class BlockTest {
     }
 
     private static void blocks() {
-        ElementFiles x = Due.withCluster();
+        Bounded x = Due.withCluster();
         x.make(0, Due.CLUSTER, 0);
         x.frame(3, 4);
         Due.is("block", x.block(2, 126, -32768, false, 0), 3);
@@ -64,7 +64,7 @@ public final class BlockTest {
     }
 
     private static void wrongBlocks() {
-        ElementFiles x = Due.withCluster();
+        Bounded x = Due.withCluster();
         x.frame(2, 0);
         Due.is("parent -1", x.block(-1, 1, 0, true, 0), ElementFiles.NONE);
         Due.is("parent SEGMENT", x.block(0, 1, 0, true, 0), ElementFiles.NONE);
@@ -90,7 +90,7 @@ public final class BlockTest {
 
     private static void lacings() {
         for (int lacing = 0; lacing < 4; lacing++) {
-            ElementFiles x = Due.withCluster();
+            Bounded x = Due.withCluster();
             x.frame(0, 0);
             Due.is("one frame, lacing " + lacing, x.block(1, 1, 0, true, lacing), 2);
             Due.is("its lacing", x.detail(2, 3), lacing);
@@ -102,7 +102,7 @@ public final class BlockTest {
             Due.is("and one more, lacing " + lacing, x.block(1, 1, 0, true, lacing),
                     lacing == 0 ? ElementFiles.DATA : 4);
         }
-        ElementFiles y = Due.withCluster();
+        Bounded y = Due.withCluster();
         y.frame(5, 0);
         y.frame(5, 0);
         y.frame(4, 0);
@@ -110,7 +110,7 @@ public final class BlockTest {
     }
 
     private static void roomForElements() {
-        ElementFiles x = Due.withCluster();
+        Bounded x = Due.withCluster();
         for (int i = 2; i < 60; i++) {
             Due.is("block " + i, Due.addBlock(x, 1, 1, i, true), i);
         }
@@ -120,13 +120,13 @@ public final class BlockTest {
         Due.is("the frame stays", x.frame(0, 0), 2);
     }
 
-    private static void fill(ElementFiles x, int n) {
+    private static void fill(Bounded x, int n) {
         x.frame(Math.min(n, 300), 1);
         x.frame(Math.max(n - 300, 0), 1);
     }
 
     private static void roomForBytes() {
-        ElementFiles x = Due.withCluster();
+        Bounded x = Due.withCluster();
         for (int i = 0; i < 3; i++) {
             fill(x, 400);
             Due.is("400 bytes", x.block(1, 1, 0, true, 1), 2 + i);
@@ -142,7 +142,7 @@ public final class BlockTest {
         Due.is("room after clear", x.block(1, 1, 0, true, 1), 2);
         x.frame(0, 0);
         Due.is("no bytes", x.block(1, 1, 0, true, 0), 3);
-        ElementFiles y = Due.withCluster();
+        Bounded y = Due.withCluster();
         for (int i = 0; i < 3; i++) {
             fill(y, 400);
             y.block(1, 1, 0, true, 1);
@@ -154,7 +154,7 @@ public final class BlockTest {
     }
 
     /** What is left of the 1200 bytes is what a block of 400, one of 400 and one of the rest find. */
-    private static void hasRoomFor(String what, ElementFiles x, int bytes) {
+    private static void hasRoomFor(String what, Bounded x, int bytes) {
         int segment = x.make(-1, Due.SEGMENT, 0);
         int cluster = x.make(segment, Due.CLUSTER, 0);
         int left = bytes;
@@ -175,7 +175,7 @@ public final class BlockTest {
     private static void roomAfterReads() {
         String segment = "18538067 FF 1F43B675 FF ";
         String block = "A3 88 81 0000 02 00 AABBCC ";
-        ElementFiles x = Due.fed(segment + block + block + "8185 0102030405");
+        Bounded x = Due.fed(segment + block + block + "8185 0102030405");
         Due.is("read", x.read(), 5);
         hasRoomFor("3 + 3 + 5 were read", x, 1189);
         Due.is("read again", x.read(), 5);
@@ -183,11 +183,11 @@ public final class BlockTest {
         x.clear();
         hasRoomFor("after clear", x, 1200);
         // What was read before the fault counts too, but not the block in which it was met.
-        ElementFiles y = Due.fed(segment + block + "8185 0102030405" + "A3 88 81 0000 03 00 AABBCC");
+        Bounded y = Due.fed(segment + block + "8185 0102030405" + "A3 88 81 0000 03 00 AABBCC");
         Due.is("read with a fault", y.read(), ElementFiles.DATA);
         hasRoomFor("3 + 5 were read before the fault", y, 1192);
         // What index() takes out was read nonetheless.
-        ElementFiles z = Due.fed("18538067 FF BB86 8184 01020304");
+        Bounded z = Due.fed("18538067 FF BB86 8184 01020304");
         Due.is("read", z.read(), 3);
         Due.is("index", z.index(0), 0);
         Due.is("taken out", z.id(1), ElementFiles.NONE);
@@ -195,7 +195,7 @@ public final class BlockTest {
     }
 
     private static void samples() {
-        ElementFiles x = Due.withCluster();
+        Bounded x = Due.withCluster();
         x.frame(2, 254);
         x.frame(0, 3);
         x.frame(3, 100);
@@ -219,13 +219,13 @@ public final class BlockTest {
         Due.is("no block", x.sample(1, 0, 0), ElementFiles.NONE);
         Due.is("none", x.sample(4, 0, 0), ElementFiles.NONE);
         Due.is("-1", x.sample(-1, 0, 0), ElementFiles.NONE);
-        ElementFiles y = Due.fed("8182 0102");
+        Bounded y = Due.fed("8182 0102");
         y.read();
         Due.is("of FOREIGN", y.sample(0, 0, 0), ElementFiles.NONE);
     }
 
     private static void details() {
-        ElementFiles x = Due.withCluster();
+        Bounded x = Due.withCluster();
         Due.addBlock(x, 1, 5, -7, true);
         Due.is("track", x.detail(2, 0), 5);
         Due.is("time", x.detail(2, 1), -7);

@@ -9,7 +9,7 @@ public final class BytesTest {
     }
 
     private static void newObject() {
-        ElementFiles x = new ElementFiles();
+        Bounded x = new Bounded();
         Due.is("new: id(0)", x.id(0), ElementFiles.NONE);
         Due.is("new: out(0)", x.out(0), ElementFiles.NONE);
         Due.is("new: where()", x.where(), ElementFiles.NONE);
@@ -17,12 +17,12 @@ public final class BytesTest {
         Due.is("new: write()", x.write(false), 0);
         Due.is("new: take(true)", x.take(true), 0);
         Due.is("new: feed", x.feed(1, 1), 1);
-        ElementFiles y = Due.withCluster();
+        Bounded y = Due.withCluster();
         Due.is("new: no frames at hand", y.block(1, 1, 0, true, 1), ElementFiles.DATA);
     }
 
     private static void feeding() {
-        ElementFiles x = new ElementFiles();
+        Bounded x = new Bounded();
         Due.is("feed n = 0", x.feed(1, 0), ElementFiles.NONE);
         Due.is("feed n = 9", x.feed(1, 9), ElementFiles.NONE);
         Due.is("feed n = -1", x.feed(1, -1), ElementFiles.NONE);
@@ -37,7 +37,7 @@ public final class BytesTest {
         for (int i = 0; i < want.length; i++) {
             Due.is("fed byte " + i, x.part(0, i), want[i]);
         }
-        ElementFiles y = new ElementFiles();
+        Bounded y = new Bounded();
         Due.is("feed 8", y.feed(0x8187FEDCBA987654L, 8), 8);
         Due.is("feed 1", y.feed(-1L, 1), 9);
         Due.is("read", y.read(), 1);
@@ -48,7 +48,7 @@ public final class BytesTest {
     }
 
     private static void feedingTooMuch() {
-        ElementFiles x = new ElementFiles();
+        Bounded x = new Bounded();
         for (int i = 1; i < 80; i++) {
             Due.is("feed 8", x.feed(0, 8), 8 * i);
         }
@@ -61,7 +61,7 @@ public final class BytesTest {
     }
 
     private static void taking() {
-        ElementFiles x = new ElementFiles();
+        Bounded x = new Bounded();
         x.feed(0x0F0F, 2);
         Due.is("take(true) of nothing", x.take(true), 0);
         Due.is("nothing is read", x.read(), 0);

@@ -31,7 +31,7 @@ public final class CallEdgeTest {
 
     /** The two states in which calls are refused are what they are said to be. */
     private static void states() {
-        ElementFiles x = Edge.made(Edge::rich);
+        Bounded x = Edge.made(Edge::rich);
         Due.is("rich", Due.shape(x), "1A45DFA3@-1 4286@0 4282@0 18538067@-1 AE@3 BF@4 536E@4 1F43B675@3 E7@7 A3@7 "
                 + "BB@3 B3@10 EC@-1");
         Due.is("its fault", x.where(), 3);
@@ -39,7 +39,7 @@ public final class CallEdgeTest {
         Due.is("its OUT", x.out(0), 0x1A);
         Due.is("its frames at hand", x.frame(0, 0), 3);
         Due.is("its room for bytes", Edge.room(Edge::rich), 1200 - 2 - 3);
-        ElementFiles y = Edge.made(Edge::rare);
+        Bounded y = Edge.made(Edge::rare);
         Due.is("rare", Due.shape(y), "18538067@-1 1F43B675@0 A3@1 81@1 BB@0 82@4 83@-1");
         Due.is("its room for bytes", Edge.room(Edge::rare), 1200 - 4 - 3 - 2);
     }
@@ -62,8 +62,8 @@ public final class CallEdgeTest {
         Edge.taken("new: write", none, x -> x.write(false), 0);
         Edge.taken("new: the first element", none, x -> x.make(-1, Due.HEAD, 0), 0);
         // Objects have nothing in common.
-        ElementFiles x = Edge.made(Edge::rich);
-        Due.is("new: another object", Edge.seen(new ElementFiles()), "where -1, OUT , tree ");
+        Bounded x = Edge.made(Edge::rich);
+        Due.is("new: another object", Edge.seen(new Bounded()), "where -1, OUT , tree ");
         Due.is("rich nonetheless", x.value(3), 3);
     }
 
@@ -84,7 +84,7 @@ public final class CallEdgeTest {
     private static void feedWhich() {
         long bytes = 0xF1E2D3C4B5A69788L;
         for (int n = 1; n <= 8; n++) {
-            ElementFiles x = new ElementFiles();
+            Bounded x = new Bounded();
             x.feed(0x8100 + 0x80 + n + 1, 2);
             x.feed(bytes, n);
             x.feed(0x77, 1);
@@ -95,7 +95,7 @@ public final class CallEdgeTest {
             Due.is("the byte behind", x.part(0, n), 0x77);
         }
         for (long odd : new long[] {0, -1, Long.MIN_VALUE, Long.MAX_VALUE}) {
-            ElementFiles x = new ElementFiles();
+            Bounded x = new Bounded();
             x.feed(0x8188, 2);
             x.feed(odd, 8);
             x.read();
@@ -123,7 +123,7 @@ public final class CallEdgeTest {
             Edge.refused("feed n = " + n + ", full", x -> Edge.fill(x, 640), x -> x.feed(0, n), ElementFiles.NONE);
         }
         // A full IN can be emptied and filled again.
-        ElementFiles x = Edge.made(y -> Edge.fill(y, 640));
+        Bounded x = Edge.made(y -> Edge.fill(y, 640));
         Due.is("take(false) when full", x.take(false), 0);
         Due.is("feed then", x.feed(0, 8), 8);
     }
@@ -132,7 +132,7 @@ public final class CallEdgeTest {
     private static void takeAll() {
         Edge.taken("take(true), OUT empty, IN too", x -> { }, x -> x.take(true), 0);
         Edge.taken("take(true), OUT empty, IN full", x -> Edge.fill(x, 640), x -> x.take(true), 0);
-        ElementFiles x = Edge.made(y -> {
+        Bounded x = Edge.made(y -> {
             Edge.fill(y, 640);
             y.take(true);
         });
@@ -143,7 +143,7 @@ public final class CallEdgeTest {
             y.feed(0x0F, 1);
         };
         Edge.taken("take(true) of 640", most, y -> y.take(true), 640);
-        ElementFiles z = Edge.made(most);
+        Bounded z = Edge.made(most);
         String out = Due.out(z);
         z.take(true);
         Due.is("OUT stays", Due.out(z), out);
@@ -152,14 +152,14 @@ public final class CallEdgeTest {
         Due.is("write() of what was read", z.write(false), 640);
         Due.is("it is the same", Due.out(z), out);
         // IN is apart from OUT then.
-        ElementFiles w = Edge.made(Edge::rich);
+        Bounded w = Edge.made(Edge::rich);
         int taken = w.take(true);
         Due.is("feed behind what was taken", w.feed(0xEC80, 2), taken + 2);
         Due.is("OUT has not got it", w.out(taken), ElementFiles.NONE);
     }
 
     /** Ten VOIDs, written as 640 bytes. */
-    private static void written640(ElementFiles x) {
+    private static void written640(Bounded x) {
         for (int i = 0; i < 9; i++) {
             x.make(-1, Due.VOID, 64);
         }
@@ -170,7 +170,7 @@ public final class CallEdgeTest {
     // Promise 3: ".. or none when all is false."
     private static void takeNone() {
         Edge.taken("take(false), all empty", x -> { }, x -> x.take(false), 0);
-        ElementFiles x = Edge.made(Edge::rich);
+        Bounded x = Edge.made(Edge::rich);
         String seen = Edge.seen(x);
         Due.is("take(false)", x.take(false), 0);
         Due.is("tree, OUT and where() stay", Edge.seen(x), seen);
@@ -208,7 +208,7 @@ public final class CallEdgeTest {
 
     // Promise 7: "There are no elements any more."
     private static void clearEdges() {
-        ElementFiles x = Edge.made(y -> {
+        Bounded x = Edge.made(y -> {
             Edge.voids(y, 60);
             y.clear();
         });
@@ -221,7 +221,7 @@ public final class CallEdgeTest {
         x.clear();
         x.clear();
         Due.is("clear of none", Edge.tree(x), "");
-        ElementFiles y = Edge.made(Edge::rich);
+        Bounded y = Edge.made(Edge::rich);
         String out = Due.out(y);
         y.clear();
         Due.is("OUT stays", Due.out(y), out);
@@ -231,7 +231,7 @@ public final class CallEdgeTest {
         // Nothing of the old elements is in the new ones.
         Edge.voids(y, 12);
         Due.is("new elements", Edge.tree(y), "EC@-1=0() ".repeat(12));
-        ElementFiles z = Edge.made(Edge::rich);
+        Bounded z = Edge.made(Edge::rich);
         z.clear();
         z.make(-1, Due.SEGMENT, 99);
         z.make(0, Due.TRACK, 99);
@@ -282,7 +282,7 @@ public final class CallEdgeTest {
             x.make(11, Due.WHOSE, 1);
             x.make(11, Due.WHICH, 1);
         };
-        ElementFiles made = Edge.made(all);
+        Bounded made = Edge.made(all);
         int leaves = 0;
         for (int k = 0; made.id(k) >= 0; k++) {
             int leaf = k;
@@ -357,7 +357,7 @@ public final class CallEdgeTest {
     // Promise 8: "with no children, the number value, no letters" (any value is taken where it counts for nothing).
     private static void makeNumbers() {
         for (long value : new long[] {0, 1, -1, 64, 65, 255, 256, 1L << 32, Long.MAX_VALUE, Long.MIN_VALUE}) {
-            ElementFiles x = new ElementFiles();
+            Bounded x = new Bounded();
             Due.is("HEAD", x.make(-1, Due.HEAD, value), 0);
             Due.is("CHECK", x.make(0, Due.CHECK, value), 1);
             Due.is("VERSION", x.make(0, Due.VERSION, value), 2);

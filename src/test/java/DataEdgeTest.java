@@ -39,7 +39,7 @@ public final class DataEdgeTest {
                 String hex = one[2].isEmpty() ? master : Edge.element(one[2], master);
                 int where = Due.plain(hex).length() / 2 - Due.plain(number).length() / 2;
                 if (size <= 8) {
-                    ElementFiles x = Edge.made(y -> Due.feed(y, hex));
+                    Bounded x = Edge.made(y -> Due.feed(y, hex));
                     int elements = one[2].isEmpty() ? 2 : 3;
                     Due.is("read() of " + hex, x.read(), elements);
                     long due = size == 0 ? 0 : Long.parseLong("01".repeat(size), 16);
@@ -52,7 +52,7 @@ public final class DataEdgeTest {
     }
 
     private static void number(String data, long due) {
-        ElementFiles x = Edge.good(Edge.element(HEAD, Edge.element("4286", data)), "1A45DFA3@-1 4286@0");
+        Bounded x = Edge.good(Edge.element(HEAD, Edge.element("4286", data)), "1A45DFA3@-1 4286@0");
         Due.is("number " + data, x.value(1), due);
         Due.is("part of a number", x.part(1, 0), ElementFiles.NONE);
     }
@@ -81,7 +81,7 @@ public final class DataEdgeTest {
                 int own = Due.plain(Edge.element("4282", data)).length() / 2;
                 Edge.fault(files[i], ElementFiles.DATA, size - own);
             } else {
-                ElementFiles x = Edge.made(fed(files[i]));
+                Bounded x = Edge.made(fed(files[i]));
                 Due.is("read() of text " + data, x.read(), 2 + i);
                 Due.is("letters of text " + data, x.value(1 + i), letters);
                 Due.is("letter behind those of " + data, x.part(1 + i, letters), ElementFiles.NONE);
@@ -101,7 +101,7 @@ public final class DataEdgeTest {
         text("41".repeat(16), 16);
         text("41".repeat(17), -1);
         text("41".repeat(100), -1);
-        ElementFiles x = Edge.made(fed(Edge.element(HEAD, Edge.element("4282", "41".repeat(15) + "5A"))));
+        Bounded x = Edge.made(fed(Edge.element(HEAD, Edge.element("4282", "41".repeat(15) + "5A"))));
         x.read();
         Due.is("the 16th letter", x.part(1, 15), 'Z');
     }
@@ -189,7 +189,7 @@ public final class DataEdgeTest {
     }
 
     /** Reads the data as a BLOCK at place 10; answers null when it is a fault, as it has to be when told. */
-    private static ElementFiles block(String data, boolean good) {
+    private static Bounded block(String data, boolean good) {
         String hex = OPEN_CLUSTER + Edge.element("A3", data);
         if (good) {
             return Edge.good(hex, "18538067@-1 1F43B675@0 A3@1");
@@ -203,7 +203,7 @@ public final class DataEdgeTest {
         for (int length = 1; length <= 8; length++) {
             for (int track : new int[] {0, 1, 2, 125, 126, 127}) {
                 boolean good = track >= 1 && track <= 126;
-                ElementFiles x = block(Edge.vint(track, length) + "0000 00", good);
+                Bounded x = block(Edge.vint(track, length) + "0000 00", good);
                 if (x != null) {
                     Due.is("track", x.detail(2, 0), track);
                 }
@@ -224,7 +224,7 @@ public final class DataEdgeTest {
     private static void times() {
         int[] times = {-32768, -32767, -256, -255, -1, 0, 1, 255, 256, 32766, 32767};
         for (int time : times) {
-            ElementFiles x = block("81" + String.format("%04X", time & 0xFFFF) + "00", true);
+            Bounded x = block("81" + String.format("%04X", time & 0xFFFF) + "00", true);
             Due.is("time " + time, x.detail(2, 1), time);
             Due.is("write()", x.write(true), 16);
             Due.is("its bytes", x.out(13) * 256 + x.out(14), time & 0xFFFF);
@@ -236,7 +236,7 @@ public final class DataEdgeTest {
         for (int flags = 0; flags < 256; flags++) {
             int lacing = (flags & 127) / 2;
             boolean good = flags % 2 == 0 && lacing <= 3;
-            ElementFiles x = block("81 0000" + String.format("%02X", flags) + "00 00", good);
+            Bounded x = block("81 0000" + String.format("%02X", flags) + "00 00", good);
             if (x != null) {
                 Due.is("key of " + flags, x.detail(2, 2), flags / 128);
                 Due.is("lacing of " + flags, x.detail(2, 3), lacing);
@@ -268,7 +268,7 @@ public final class DataEdgeTest {
             String first = less == 0 ? "" : "80" + "BF".repeat(less - 1);
             String[] laced = {"02" + count + "00".repeat(less), "04" + count, "06" + count + first};
             for (int i = 0; i < laced.length; i++) {
-                ElementFiles x = block("81 0000" + laced[i], less <= 7);
+                Bounded x = block("81 0000" + laced[i], less <= 7);
                 if (x != null) {
                     Due.is("frames of " + laced[i], x.value(2), less + 1);
                     Due.is("size of the last one", x.part(2, less), 0);
@@ -281,7 +281,7 @@ public final class DataEdgeTest {
     // "Lacing 0: one frame, all that is left."
     private static void unlaced() {
         for (int size : new int[] {0, 1, 122, 123, 300, 301, 400, 401, 623}) {
-            ElementFiles x = block("81 0000 80" + "5B".repeat(size), true);
+            Bounded x = block("81 0000 80" + "5B".repeat(size), true);
             Due.is("one frame", x.value(2), 1);
             Due.is("its size", x.part(2, 0), size);
             Due.is("its last byte", x.sample(2, 0, size - 1), size == 0 ? ElementFiles.NONE : 0x5B);
@@ -294,7 +294,7 @@ public final class DataEdgeTest {
     }
 
     private static void sized(String head, int left, boolean good, int... sizes) {
-        ElementFiles x = block("81 0000" + head + "5C".repeat(left), good);
+        Bounded x = block("81 0000" + head + "5C".repeat(left), good);
         for (int i = 0; x != null && i < sizes.length; i++) {
             Due.is("size " + i + " of " + head, x.part(2, i), sizes[i]);
         }
@@ -331,7 +331,7 @@ public final class DataEdgeTest {
     private static void lacedEvenly() {
         for (int frames = 1; frames <= 8; frames++) {
             for (int left = 0; left <= 25; left++) {
-                ElementFiles x = block("81 0000 04" + String.format("%02X", frames - 1) + "5D".repeat(left),
+                Bounded x = block("81 0000 04" + String.format("%02X", frames - 1) + "5D".repeat(left),
                         left % frames == 0);
                 if (x != null) {
                     Due.is("frames", x.value(2), frames);

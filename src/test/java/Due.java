@@ -49,7 +49,7 @@ final class Due {
     }
 
     /** Appends the bytes that are told in hexadecimal, with blanks anywhere, in as few calls as can be. */
-    static void feed(ElementFiles x, String hex) {
+    static void feed(Bounded x, String hex) {
         String digits = hex.replace(" ", "");
         for (int i = 0; i + 1 < digits.length(); i += 16) {
             String some = digits.substring(i, Math.min(i + 16, digits.length()));
@@ -57,14 +57,14 @@ final class Due {
         }
     }
 
-    static ElementFiles fed(String hex) {
-        ElementFiles x = new ElementFiles();
+    static Bounded fed(String hex) {
+        Bounded x = new Bounded();
         feed(x, hex);
         return x;
     }
 
     /** The bytes of OUT in hexadecimal, without blanks. */
-    static String out(ElementFiles x) {
+    static String out(Bounded x) {
         StringBuilder hex = new StringBuilder();
         for (int i = 0; x.out(i) >= 0; i++) {
             hex.append(String.format("%02X", x.out(i)));
@@ -87,21 +87,21 @@ final class Due {
     }
 
     /** A SEGMENT (0) with a CLUSTER (1). */
-    static ElementFiles withCluster() {
-        ElementFiles x = new ElementFiles();
+    static Bounded withCluster() {
+        Bounded x = new Bounded();
         x.make(-1, SEGMENT, 0);
         x.make(0, CLUSTER, 0);
         return x;
     }
 
     /** Adds a block with one frame of one byte. */
-    static int addBlock(ElementFiles x, int cluster, int track, int time, boolean key) {
+    static int addBlock(Bounded x, int cluster, int track, int time, boolean key) {
         x.frame(1, 7);
         return x.block(cluster, track, time, key, 0);
     }
 
     /** The IDs of the whole tree with their masters, as a text. */
-    static String shape(ElementFiles x) {
+    static String shape(Bounded x) {
         StringBuilder shape = new StringBuilder();
         for (int k = 0; x.id(k) >= 0; k++) {
             shape.append(String.format("%X@%d ", x.id(k), x.parent(k)));

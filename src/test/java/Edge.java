@@ -9,19 +9,19 @@ final class Edge {
 
     /** Calls that bring a new object to where the edge is. */
     interface Run {
-        void on(ElementFiles x);
+        void on(Bounded x);
     }
 
     /** The call at the edge. */
     interface Call {
-        long on(ElementFiles x);
+        long on(Bounded x);
     }
 
     private Edge() {
     }
 
-    static ElementFiles made(Run run) {
-        ElementFiles x = new ElementFiles();
+    static Bounded made(Run run) {
+        Bounded x = new Bounded();
         run.on(x);
         return x;
     }
@@ -63,7 +63,7 @@ final class Edge {
             full(x);
             Due.feed(x, hex);
         };
-        ElementFiles x = made(before);
+        Bounded x = made(before);
         Due.is("read() of " + shown(hex), x.read(), due);
         Due.is("where() after " + shown(hex), x.where(), where);
         Due.is("the tree after " + shown(hex), tree(x), "");
@@ -73,8 +73,8 @@ final class Edge {
     }
 
     /** A read() meets no fault, and the tree has these IDs and masters. */
-    static ElementFiles good(String hex, String shape) {
-        ElementFiles x = made(y -> {
+    static Bounded good(String hex, String shape) {
+        Bounded x = made(y -> {
             full(y);
             Due.feed(y, hex);
         });
@@ -86,7 +86,7 @@ final class Edge {
     }
 
     /** Something in the tree, in OUT and at hand, which a read() may not mix up with what it reads. */
-    private static void full(ElementFiles x) {
+    private static void full(Bounded x) {
         x.make(-1, Due.HEAD, 0);
         x.make(0, Due.TYPE, 0);
         x.letter(1, 'q');
@@ -99,7 +99,7 @@ final class Edge {
      * (TRACK 4 (CHECK 5, NAME 6 "xy"), CLUSTER 7 (TIME 8, BLOCK 9), CUE 10 (WHEN 11)), VOID 12; in IN a
      * FOREIGN element and a VOID, in OUT the tree without its last element, and two frames at hand.
      */
-    static void rich(ElementFiles x) {
+    static void rich(Bounded x) {
         Due.feed(x, "EC81 00 0F");
         x.read();
         x.take(false);
@@ -127,7 +127,7 @@ final class Edge {
     }
 
     /** A tree that was read: SEGMENT 0 (CLUSTER 1 (BLOCK 2, FOREIGN 3), CUE 4 (FOREIGN 5)), FOREIGN 6. */
-    static void rare(ElementFiles x) {
+    static void rare(Bounded x) {
         Due.feed(x, SEGMENT + "9A" + CLUSTER + "8E A38A 8200050201020A0B0C0D 8180 BB85 8283 0E0F10 8382 1112");
         x.read();
     }
@@ -137,12 +137,12 @@ final class Edge {
     }
 
     /** All that calls which change nothing tell. */
-    static String seen(ElementFiles x) {
+    static String seen(Bounded x) {
         return "where " + x.where() + ", OUT " + Due.out(x) + ", tree " + tree(x);
     }
 
     /** The tree as all calls tell it. */
-    static String tree(ElementFiles x) {
+    static String tree(Bounded x) {
         StringBuilder tree = new StringBuilder();
         for (int k = 0; x.id(k) != ElementFiles.NONE; k++) {
             tree.append(String.format("%X@%d=%d(", x.id(k), x.parent(k), x.value(k)));
@@ -157,7 +157,7 @@ final class Edge {
         return tree.toString();
     }
 
-    private static String block(ElementFiles x, int k) {
+    private static String block(Bounded x, int k) {
         StringBuilder block = new StringBuilder();
         for (int what = 0; what < 4; what++) {
             block.append(x.detail(k, what)).append(' ');
@@ -172,12 +172,12 @@ final class Edge {
     }
 
     /** What IN has, as far as it can be told: what is read of it, and how many bytes there are. */
-    static String in(ElementFiles x) {
+    static String in(Bounded x) {
         return "read " + x.read() + ", " + seen(x) + ", feed " + x.feed(0, 1);
     }
 
     /** The frames at hand, as a block gets them; clears the tree. */
-    static String atHand(ElementFiles x) {
+    static String atHand(Bounded x) {
         x.clear();
         x.make(-1, Due.SEGMENT, 0);
         x.make(0, Due.CLUSTER, 0);
@@ -199,7 +199,7 @@ final class Edge {
         return fits;
     }
 
-    private static boolean hasRoom(ElementFiles x, int bytes) {
+    private static boolean hasRoom(Bounded x, int bytes) {
         int cluster = anyCluster(x);
         if (cluster < 0) {
             return false;
@@ -217,7 +217,7 @@ final class Edge {
         return true;
     }
 
-    private static int anyCluster(ElementFiles x) {
+    private static int anyCluster(Bounded x) {
         for (int k = 0; x.id(k) != ElementFiles.NONE; k++) {
             if (x.id(k) == Due.CLUSTER) {
                 return k;
@@ -227,14 +227,14 @@ final class Edge {
     }
 
     /** Makes so many VOIDs at the top, of no bytes. */
-    static void voids(ElementFiles x, int n) {
+    static void voids(Bounded x, int n) {
         for (int i = 0; i < n; i++) {
             x.make(-1, Due.VOID, 0);
         }
     }
 
     /** Appends so many bytes to IN, which together are FOREIGN elements of no data. */
-    static void fill(ElementFiles x, int n) {
+    static void fill(Bounded x, int n) {
         for (int i = 0; i + 8 <= n; i += 8) {
             x.feed(0x8180818081808180L, 8);
         }

@@ -30,7 +30,7 @@ public final class FaultEdgeTest {
     // "Reads IN: .. the answer is how many elements it has." (None, when IN is empty.)
     private static void nothing() {
         Edge.good("", "");
-        ElementFiles x = new ElementFiles();
+        Bounded x = new Bounded();
         Due.is("read() of a new object", x.read(), 0);
         Due.is("where() then", x.where(), ElementFiles.NONE);
     }
@@ -281,7 +281,7 @@ public final class FaultEdgeTest {
 
     // "NONE when it met none, or there was no read()."
     private static void whereStays() {
-        ElementFiles x = new ElementFiles();
+        Bounded x = new Bounded();
         Due.is("where() without a read()", x.where(), ElementFiles.NONE);
         x.feed(0xEC800FL, 3);
         x.make(-1, Due.VOID, 0);
@@ -291,7 +291,7 @@ public final class FaultEdgeTest {
         Edge.looked("where()", y -> {
             y.feed(0xEC800FL, 3);
             y.read();
-        }, ElementFiles::where, 2);
+        }, Bounded::where, 2);
         // Only a read() changes it.
         x.feed(1, 1);
         x.make(-1, Due.VOID, 0);
@@ -327,11 +327,11 @@ public final class FaultEdgeTest {
         Due.is("OUT", Due.out(Edge.made(after)), Due.out(Edge.made(before)));
         Due.is("the frames at hand", Edge.atHand(Edge.made(after)), Edge.atHand(Edge.made(before)));
         Due.is("IN", Edge.in(Edge.made(after)), Edge.in(Edge.made(before)));
-        ElementFiles x = Edge.made(after);
+        Bounded x = Edge.made(after);
         Due.is("IN goes on", x.feed(0xEC80, 2), 9);
         Due.is("read() of more", x.read(), 3);
         // After a fault, the tree is empty and can be made anew.
-        ElementFiles y = Edge.made(before);
+        Bounded y = Edge.made(before);
         y.feed(0x0F, 1);
         Due.is("read() with a fault", y.read(), ElementFiles.FORM);
         Due.is("the first element", y.id(0), ElementFiles.NONE);
@@ -342,7 +342,7 @@ public final class FaultEdgeTest {
 
     /** IN with all its 640 bytes. */
     private static void fullIn() {
-        ElementFiles x = Edge.made(y -> Due.feed(y, "81 427D" + "5E".repeat(637)));
+        Bounded x = Edge.made(y -> Due.feed(y, "81 427D" + "5E".repeat(637)));
         Due.is("it is full", x.feed(0, 1), ElementFiles.LONG);
         Due.is("read() of 640 bytes", x.read(), 1);
         Due.is("its last byte", x.part(0, 636), 0x5E);

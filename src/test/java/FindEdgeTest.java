@@ -59,12 +59,12 @@ public final class FindEdgeTest {
 
     // Promise 19: "The CUEs of a SEGMENT are taken out (with all that is in them)."
     private static void indexTakesOut() {
-        ElementFiles x = Edge.made(Edge::rare);
+        Bounded x = Edge.made(Edge::rare);
         Due.is("no key block", x.index(0), 0);
         Due.is("no CUE", Due.shape(x), "18538067@-1 1F43B675@0 A3@1 81@1 83@-1");
         Due.is("what stands behind is whole", x.part(4, 1), 18);
         // CUEs alone, as many as there can be, and those of another SEGMENT.
-        ElementFiles y = Edge.made(z -> {
+        Bounded y = Edge.made(z -> {
             z.make(-1, Due.SEGMENT, 0);
             z.make(-1, Due.SEGMENT, 0);
             z.make(1, Due.CUE, 0);
@@ -77,12 +77,12 @@ public final class FindEdgeTest {
         Due.is("the others stay", Due.shape(y), "18538067@-1 18538067@-1 BB@1");
         Due.is("there is room again", y.make(-1, Due.VOID, 0), 3);
         // Twice is the same as once.
-        ElementFiles w = Edge.made(Edge.both(Edge::rich, z -> z.index(3)));
+        Bounded w = Edge.made(Edge.both(Edge::rich, z -> z.index(3)));
         String tree = Edge.tree(w);
         Due.is("again", w.index(3), 1);
         Due.is("the same tree", Edge.tree(w), tree);
         // They are taken out wherever they stand, and the new ones are the last children.
-        ElementFiles v = Edge.made(z -> {
+        Bounded v = Edge.made(z -> {
             z.make(-1, Due.SEGMENT, 0);
             z.make(0, Due.CUE, 0);
             z.make(1, Due.CHECK, 0);
@@ -101,7 +101,7 @@ public final class FindEdgeTest {
     // Promise 19: "for each key block in it, in order, a CUE .. WHOSE: its track; WHICH: how many blocks stand
     // before it in the SEGMENT."
     private static void indexCues() {
-        ElementFiles x = Edge.made(y -> {
+        Bounded x = Edge.made(y -> {
             y.make(-1, Due.SEGMENT, 0);
             y.make(0, Due.CLUSTER, 0);
             Due.addBlock(y, 1, 126, 32767, true);
@@ -120,7 +120,7 @@ public final class FindEdgeTest {
         Due.is("blocks before it are those of its own SEGMENT", cue(x, 17), "5 2 0");
     }
 
-    private static String cue(ElementFiles x, int k) {
+    private static String cue(Bounded x, int k) {
         Due.is("a CUE", x.id(k), Due.CUE);
         Due.is("with three children", x.value(k), 3);
         Due.is("WHEN", x.id(k + 1), Due.WHEN);
@@ -142,7 +142,7 @@ public final class FindEdgeTest {
     }
 
     private static void momentIs(long due, int time, long... times) {
-        ElementFiles x = Edge.made(Edge.both(timed(time, times), y -> y.index(0)));
+        Bounded x = Edge.made(Edge.both(timed(time, times), y -> y.index(0)));
         Due.is("the moment", cue(x, 3 + times.length), due + " 1 0");
         Edge.Run run = timed(time, times);
         Edge.taken("seek at it", run, y -> y.seek(0, 1, due), 2);
@@ -171,7 +171,7 @@ public final class FindEdgeTest {
         momentIs(Long.MAX_VALUE, -1, Long.MIN_VALUE);
         momentIs(Long.MAX_VALUE - 32767, -32768, Long.MIN_VALUE);
         // Another CLUSTER's TIME is not its own.
-        ElementFiles x = Edge.made(Edge.both(timed(4), y -> {
+        Bounded x = Edge.made(Edge.both(timed(4), y -> {
             y.make(0, Due.CLUSTER, 0);
             y.make(3, Due.TIME, 1000);
             Due.addBlock(y, 3, 1, 6, true);
@@ -242,7 +242,7 @@ public final class FindEdgeTest {
         Edge.refused("62 elements", run, x -> x.index(0), ElementFiles.ROOM);
         Edge.Run full = Edge.both(blocks(57, true), x -> x.make(0, Due.CUE, 0));
         Edge.refused("far too many", full, x -> x.index(0), ElementFiles.ROOM);
-        ElementFiles x = Edge.made(run);
+        Bounded x = Edge.made(run);
         x.index(0);
         Due.is("jump by the old CUE", x.jump(0, 0, 0), 5);
     }

@@ -13,8 +13,8 @@ public final class FindTest {
     }
 
     /** SEGMENT 0: CLUSTER 1 (TIME 100, TIME 5, blocks 4 and 5), CLUSTER 6 (block 7), TRACK 8; HEAD 9. */
-    private static ElementFiles sample() {
-        ElementFiles x = Due.withCluster();
+    private static Bounded sample() {
+        Bounded x = Due.withCluster();
         x.make(1, Due.TIME, 100);
         x.make(1, Due.TIME, 5);
         Due.addBlock(x, 1, 1, -3, false);
@@ -26,7 +26,7 @@ public final class FindTest {
         return x;
     }
 
-    private static void cue(ElementFiles x, int k, long when, long whose, long which) {
+    private static void cue(Bounded x, int k, long when, long whose, long which) {
         Due.is("CUE " + k, x.id(k), Due.CUE);
         Due.is("its children", x.value(k), 3);
         Due.is("WHEN", x.id(k + 1), Due.WHEN);
@@ -38,13 +38,13 @@ public final class FindTest {
     }
 
     private static void indexing() {
-        ElementFiles x = sample();
+        Bounded x = sample();
         Due.is("index", x.index(0), 2);
         Due.is("shape", Due.shape(x), "18538067@-1 1F43B675@0 E7@1 E7@1 A3@1 A3@1 1F43B675@0 A3@6 AE@0 "
                 + "BB@0 B3@9 F7@9 F1@9 BB@0 B3@13 F7@13 F1@13 1A45DFA3@-1");
         cue(x, 9, 104, 2, 1);
         cue(x, 13, -9, 1, 2);
-        ElementFiles y = Due.withCluster();
+        Bounded y = Due.withCluster();
         Due.is("no blocks", y.index(0), 0);
         Due.is("no CUEs", y.value(0), 1);
         Due.addBlock(y, 1, 3, 0, false);
@@ -58,7 +58,7 @@ public final class FindTest {
 
     private static void indexingAgain() {
         // CUEs before, between and behind, one with a FOREIGN element, one in another SEGMENT.
-        ElementFiles x = Due.fed("18538067 9A BB80 1F43B675 89 A384 81000180 E78164 BB86 8184 01020304 BB80"
+        Bounded x = Due.fed("18538067 9A BB80 1F43B675 89 A384 81000180 E78164 BB86 8184 01020304 BB80"
                 + "18538067 82 BB80 EC80");
         Due.is("read", x.read(), 11);
         Due.is("index", x.index(0), 1);
@@ -82,7 +82,7 @@ public final class FindTest {
     }
 
     private static void indexingWrongly() {
-        ElementFiles x = sample();
+        Bounded x = sample();
         Due.is("CLUSTER", x.index(1), ElementFiles.NONE);
         Due.is("HEAD", x.index(9), ElementFiles.NONE);
         Due.is("none", x.index(10), ElementFiles.NONE);
@@ -93,7 +93,7 @@ public final class FindTest {
 
     private static void indexingWithoutRoom() {
         // 2 + 11 + 4 * 11 = 57 elements; a VOID makes 58, three more 61.
-        ElementFiles x = Due.withCluster();
+        Bounded x = Due.withCluster();
         for (int i = 0; i < 11; i++) {
             Due.addBlock(x, 1, 1, i, true);
         }
@@ -106,7 +106,7 @@ public final class FindTest {
         Due.is("again, as the old CUEs go", x.index(0), 11);
         Due.is("the last one", x.value(59), 2);
         Due.is("the last CUE", x.value(56), 10);
-        ElementFiles y = Due.withCluster();
+        Bounded y = Due.withCluster();
         y.make(0, Due.CUE, 0);
         for (int i = 0; i < 11; i++) {
             Due.addBlock(y, 1, 1, i, true);
@@ -119,7 +119,7 @@ public final class FindTest {
         Due.is("it has no child", y.value(13), 0);
         Due.is("children stay", y.value(0), 2);
         // CUEs that stand first are taken out too, so there is room for others.
-        ElementFiles z = new ElementFiles();
+        Bounded z = new Bounded();
         z.make(-1, Due.SEGMENT, 0);
         z.make(0, Due.CUE, 0);
         z.make(1, Due.WHEN, 5);
@@ -136,7 +136,7 @@ public final class FindTest {
     }
 
     private static void seeking() {
-        ElementFiles x = sample();
+        Bounded x = sample();
         Due.is("track 2", x.seek(0, 2, 104), 5);
         Due.is("track 2, before", x.seek(0, 2, 103), ElementFiles.NONE);
         Due.is("track 1", x.seek(0, 1, -9), 7);
@@ -157,7 +157,7 @@ public final class FindTest {
 
     private static void seekingMoments() {
         // The last one in the file, not the one with the greatest moment.
-        ElementFiles x = Due.withCluster();
+        Bounded x = Due.withCluster();
         Due.addBlock(x, 1, 1, 50, true);
         Due.addBlock(x, 1, 1, 20, true);
         Due.addBlock(x, 1, 1, 90, true);
@@ -171,7 +171,7 @@ public final class FindTest {
     }
 
     private static void jumping() {
-        ElementFiles x = sample();
+        Bounded x = sample();
         Due.is("no CUEs", x.jump(0, 2, 104), ElementFiles.NONE);
         x.index(0);
         Due.is("track 2", x.jump(0, 2, 104), 5);
@@ -190,7 +190,7 @@ public final class FindTest {
     }
 
     private static void jumpingByOddCues() {
-        ElementFiles x = Due.withCluster();
+        Bounded x = Due.withCluster();
         Due.addBlock(x, 1, 5, 0, false);
         Due.addBlock(x, 1, 6, 0, false);
         x.make(0, Due.CUE, 0);
@@ -207,7 +207,7 @@ public final class FindTest {
         Due.is("the first WHEN", x.jump(0, 7, 9), ElementFiles.NONE);
         Due.is("the first WHOSE", x.jump(0, 8, 10), ElementFiles.NONE);
         for (long which : new long[] {2, -1, 1L << 32, Long.MIN_VALUE, Long.MAX_VALUE}) {
-            ElementFiles y = Due.withCluster();
+            Bounded y = Due.withCluster();
             Due.addBlock(y, 1, 5, 0, true);
             Due.addBlock(y, 1, 5, 0, true);
             y.index(0);
@@ -217,13 +217,13 @@ public final class FindTest {
             Due.is("WHICH " + which, y.jump(0, 5, 0), ElementFiles.NONE);
             Due.is("seek needs no CUE", y.seek(0, 5, 0), 3);
         }
-        ElementFiles z = Due.withCluster();
+        Bounded z = Due.withCluster();
         Due.addBlock(z, 1, 5, 0, true);
         z.make(0, Due.CUE, 0);
         z.make(3, Due.WHOSE, (1L << 32) + 5);
         Due.is("WHOSE is a long", z.jump(0, 5, 0), ElementFiles.NONE);
         // The last CUE in the file, not the one with the greatest WHEN; blocks count over CLUSTERs.
-        ElementFiles w = Due.withCluster();
+        Bounded w = Due.withCluster();
         Due.addBlock(w, 1, 1, 50, true);
         Due.addBlock(w, 1, 1, 20, true);
         w.make(0, Due.CLUSTER, 0);

@@ -94,13 +94,13 @@ public final class LookEdgeTest {
             Edge.looked("value(" + k + ")", Edge::rare, x -> x.value(same), rare[k]);
         }
         // A CHECK's is 0 whatever its sum is.
-        ElementFiles x = Edge.made(y -> Due.feed(y, Edge.element(Edge.HEAD, "BF84" + Due.sum("EC80") + "EC80")));
+        Bounded x = Edge.made(y -> Due.feed(y, Edge.element(Edge.HEAD, "BF84" + Due.sum("EC80") + "EC80")));
         x.read();
         Due.is("value of a CHECK that was read", x.value(1), 0);
     }
 
     private static void valuesAtTheirMost() {
-        ElementFiles x = Edge.made(y -> {
+        Bounded x = Edge.made(y -> {
             y.make(-1, Due.HEAD, 0);
             y.make(0, Due.VERSION, Long.MIN_VALUE);
             y.make(0, Due.VERSION, Long.MAX_VALUE);
@@ -112,11 +112,11 @@ public final class LookEdgeTest {
         Due.is("a number that looks like NONE", x.value(3), -1);
         Due.is("the greatest VOID that is made", x.value(4), 64);
         for (String id : new String[] {"EC", "81"}) {
-            ElementFiles y = Edge.made(z -> Due.feed(z, id + "427D" + "00".repeat(637)));
+            Bounded y = Edge.made(z -> Due.feed(z, id + "427D" + "00".repeat(637)));
             Due.is("read", y.read(), 1);
             Due.is("the greatest that is read", y.value(0), 637);
         }
-        ElementFiles y = Edge.made(z -> {
+        Bounded y = Edge.made(z -> {
             z.make(-1, Due.HEAD, 0);
             for (int i = 0; i < 59; i++) {
                 z.make(0, Due.VOID, 0);
@@ -181,7 +181,7 @@ public final class LookEdgeTest {
         partIs(Edge::rare, 3);
         partIs(Edge::rare, 5, 14, 15, 16);
         partIs(Edge::rare, 6, 17, 18);
-        ElementFiles x = Edge.made(y -> Due.feed(y, "81 427D" + "00".repeat(636) + "FF"));
+        Bounded x = Edge.made(y -> Due.feed(y, "81 427D" + "00".repeat(636) + "FF"));
         x.read();
         Due.is("byte 0 of 637", x.part(0, 0), 0);
         Due.is("byte 636 of 637", x.part(0, 636), 255);
@@ -265,7 +265,7 @@ public final class LookEdgeTest {
             Edge.looked("detail(9, " + what + ")", Edge::rich, x -> x.detail(9, what), -65536);
         }
         for (int time : new int[] {-32768, 32767, -1, 0}) {
-            ElementFiles x = Due.withCluster();
+            Bounded x = Due.withCluster();
             Due.addBlock(x, 1, 126, time, false);
             Due.is("time " + time, x.detail(2, 1), time);
             Due.is("no key block", x.detail(2, 2), 0);
@@ -275,7 +275,7 @@ public final class LookEdgeTest {
 
     /** The last element that can be. */
     private static void sixtieth() {
-        ElementFiles x = Edge.made(y -> {
+        Bounded x = Edge.made(y -> {
             y.make(-1, Due.SEGMENT, 0);
             y.make(0, Due.CLUSTER, 0);
             for (int i = 2; i < 60; i++) {

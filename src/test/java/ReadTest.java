@@ -21,20 +21,20 @@ public final class ReadTest {
     }
 
     private static void good(String hex, int elements) {
-        ElementFiles x = Due.fed(hex);
+        Bounded x = Due.fed(hex);
         Due.is("read of " + hex, x.read(), elements);
         Due.is("where after " + hex, x.where(), ElementFiles.NONE);
     }
 
     private static void bad(String hex, int fault, int where) {
-        ElementFiles x = Due.fed(hex);
+        Bounded x = Due.fed(hex);
         Due.is("read of " + hex, x.read(), fault);
         Due.is("where after " + hex, x.where(), where);
         Due.is("no elements after " + hex, x.id(0), ElementFiles.NONE);
     }
 
     private static void shaped(String hex, String shape) {
-        ElementFiles x = Due.fed(hex);
+        Bounded x = Due.fed(hex);
         Due.is("where after " + hex, x.read() < 0 ? x.where() : ElementFiles.NONE, ElementFiles.NONE);
         Due.is("shape of " + hex, Due.shape(x), shape);
     }
@@ -189,7 +189,7 @@ public final class ReadTest {
     }
 
     private static void number(String data, long value) {
-        ElementFiles x = Due.fed(String.format("%s%02X 4286 %02X %s", HEAD,
+        Bounded x = Due.fed(String.format("%s%02X 4286 %02X %s", HEAD,
                 0x83 + data.length() / 2, 0x80 + data.length() / 2, data));
         Due.is("read of number " + data, x.read(), 2);
         Due.is("number " + data, x.value(1), value);
@@ -210,7 +210,7 @@ public final class ReadTest {
     }
 
     private static void text(String data, int letters) {
-        ElementFiles x = Due.fed(String.format("%s%02X 4282 %02X %s", HEAD,
+        Bounded x = Due.fed(String.format("%s%02X 4282 %02X %s", HEAD,
                 0x83 + data.length() / 2, 0x80 + data.length() / 2, data));
         Due.is("read of text " + data, x.read(), letters < 0 ? ElementFiles.DATA : 2);
         Due.is("where of text " + data, x.where(), letters < 0 ? 5 : ElementFiles.NONE);
@@ -260,13 +260,13 @@ public final class ReadTest {
     }
 
     /** Feeds the data as a BLOCK at place 10, in a CLUSTER of a SEGMENT of unknown sizes. */
-    private static ElementFiles block(String data) {
+    private static Bounded block(String data) {
         int size = Due.plain(data).length() / 2;
         return Due.fed(SEGMENT + "FF " + CLUSTER + "FF A3 " + String.format("%04X", 0x4000 + size) + data);
     }
 
     private static void goodBlock(String data, int track, int time, int key, int lacing) {
-        ElementFiles x = block(data);
+        Bounded x = block(data);
         Due.is("read of block " + data, x.read(), 3);
         Due.is("track of " + data, x.detail(2, 0), track);
         Due.is("time of " + data, x.detail(2, 1), time);
@@ -275,7 +275,7 @@ public final class ReadTest {
     }
 
     private static void badBlock(String data) {
-        ElementFiles x = block(data);
+        Bounded x = block(data);
         Due.is("read of block " + data, x.read(), ElementFiles.DATA);
         Due.is("where of block " + data, x.where(), 10);
     }
@@ -313,7 +313,7 @@ public final class ReadTest {
         // The byte behind the block does not tell how many frames there are.
         bad(SEGMENT + "FF " + CLUSTER + "FF A384 81000004 00", ElementFiles.DATA, 10);
         badBlock("81 0000 06 FF");
-        ElementFiles x = block("81 0000 00 0A0B0C");
+        Bounded x = block("81 0000 00 0A0B0C");
         Due.is("read", x.read(), 3);
         Due.is("one frame", x.value(2), 1);
         Due.is("its size", x.part(2, 0), 3);
@@ -321,7 +321,7 @@ public final class ReadTest {
     }
 
     private static void laced(String data, int... sizes) {
-        ElementFiles x = block(data);
+        Bounded x = block(data);
         Due.is("read of block " + data, x.read(), 3);
         Due.is("frames of " + data, x.value(2), sizes.length);
         for (int i = 0; i < sizes.length; i++) {
@@ -372,7 +372,7 @@ public final class ReadTest {
     }
 
     private static void whatStays() {
-        ElementFiles x = Due.withCluster();
+        Bounded x = Due.withCluster();
         x.frame(2, 5);
         x.write(false);
         Due.feed(x, "EC80 8180");

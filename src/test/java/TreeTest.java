@@ -19,7 +19,7 @@ public final class TreeTest {
     }
 
     private static void clearing() {
-        ElementFiles x = Due.withCluster();
+        Bounded x = Due.withCluster();
         x.write(false);
         x.feed(0xEC80, 2);
         x.frame(1, 1);
@@ -48,7 +48,7 @@ public final class TreeTest {
         for (String line : may) {
             int parent = Integer.parseInt(line.substring(0, line.indexOf(':')));
             for (int id : ALL) {
-                ElementFiles x = new ElementFiles();
+                Bounded x = new Bounded();
                 x.make(-1, Due.HEAD, 0);
                 x.make(-1, Due.SEGMENT, 0);
                 x.make(1, Due.TRACK, 0);
@@ -64,7 +64,7 @@ public final class TreeTest {
     }
 
     private static void makingInOrder() {
-        ElementFiles x = new ElementFiles();
+        Bounded x = new Bounded();
         Due.is("SEGMENT", x.make(-1, Due.SEGMENT, 0), 0);
         Due.is("VOID behind", x.make(-1, Due.VOID, 1), 1);
         Due.is("HEAD behind", x.make(-1, Due.HEAD, 0), 2);
@@ -82,7 +82,7 @@ public final class TreeTest {
     }
 
     private static void makingWrongly() {
-        ElementFiles x = new ElementFiles();
+        Bounded x = new Bounded();
         Due.is("parent 0 of none", x.make(0, Due.HEAD, 0), ElementFiles.NONE);
         Due.is("parent -2", x.make(-2, Due.HEAD, 0), ElementFiles.NONE);
         Due.is("parent MIN", x.make(Integer.MIN_VALUE, 0x81, 0), ElementFiles.NONE);
@@ -106,13 +106,13 @@ public final class TreeTest {
         Due.is("TYPE with a value", x.make(2, Due.TYPE, 5), 4);
         Due.is("a new text has no letters", x.value(4), 0);
         Due.is("VOID in a text", x.make(4, Due.VOID, 0), ElementFiles.MISPLACED);
-        ElementFiles y = Due.fed("8182 EC80");
+        Bounded y = Due.fed("8182 EC80");
         y.read();
         Due.is("VOID in a FOREIGN one", y.make(0, Due.VOID, 0), ElementFiles.MISPLACED);
     }
 
     private static void makingTooMany() {
-        ElementFiles x = new ElementFiles();
+        Bounded x = new Bounded();
         x.make(-1, Due.HEAD, 0);
         for (int i = 1; i < 60; i++) {
             Due.is("element " + i, x.make(0, Due.VERSION, i), i);
@@ -130,7 +130,7 @@ public final class TreeTest {
     }
 
     private static void checksFirst() {
-        ElementFiles x = new ElementFiles();
+        Bounded x = new Bounded();
         x.make(-1, Due.HEAD, 0);
         Due.is("CHECK first", x.make(0, Due.CHECK, 77), 1);
         Due.is("its value", x.value(1), 0);
@@ -144,7 +144,7 @@ public final class TreeTest {
     }
 
     private static void letters() {
-        ElementFiles x = new ElementFiles();
+        Bounded x = new Bounded();
         x.make(-1, Due.HEAD, 0);
         x.make(0, Due.TYPE, 0);
         x.make(0, Due.VERSION, 3);
@@ -180,7 +180,7 @@ public final class TreeTest {
         x.make(1, Due.NAME, 0);
         Due.is("NAME is a text", x.letter(2, 'q'), 1);
         Due.is("with its own letters", x.part(2, 1), ElementFiles.NONE);
-        ElementFiles y = Due.fed("1A45DFA3 86 4282 83 614200");
+        Bounded y = Due.fed("1A45DFA3 86 4282 83 614200");
         y.read();
         Due.is("a text that was read", y.letter(1, 'c'), 3);
         Due.is("its letters", y.part(1, 1), 'B');
@@ -188,7 +188,7 @@ public final class TreeTest {
     }
 
     private static void idsAndParents() {
-        ElementFiles x = Due.withCluster();
+        Bounded x = Due.withCluster();
         Due.is("id(0)", x.id(0), Due.SEGMENT);
         Due.is("id(1)", x.id(1), Due.CLUSTER);
         Due.is("id(2)", x.id(2), ElementFiles.NONE);
@@ -207,7 +207,7 @@ public final class TreeTest {
     }
 
     private static void values() {
-        ElementFiles x = Due.fed("18538067 FF AE80 1F43B675 FF E788 FFFFFFFFFFFFFFFE EC83 010203 8184 0A0B0C0D A38A 8100 0002 02 00 00 AABBCC");
+        Bounded x = Due.fed("18538067 FF AE80 1F43B675 FF E788 FFFFFFFFFFFFFFFE EC83 010203 8184 0A0B0C0D A38A 8100 0002 02 00 00 AABBCC");
         Due.is("read", x.read(), 7);
         Due.is("SEGMENT", x.value(0), 2);
         Due.is("TRACK", x.value(1), 0);
@@ -219,7 +219,7 @@ public final class TreeTest {
         Due.is("value(7)", x.value(7), ElementFiles.NONE);
         Due.is("value(-1)", x.value(-1), ElementFiles.NONE);
         Due.is("value(MAX)", x.value(Integer.MAX_VALUE), ElementFiles.NONE);
-        ElementFiles y = Due.fed("1A45DFA3 86 BF84 00000000");
+        Bounded y = Due.fed("1A45DFA3 86 BF84 00000000");
         y.read();
         Due.is("CHECK", y.value(1), 0);
         for (long number : new long[] {0, -1, Long.MIN_VALUE, Long.MAX_VALUE, 1L << 40}) {
@@ -228,7 +228,7 @@ public final class TreeTest {
     }
 
     private static void parts() {
-        ElementFiles x = Due.fed("18538067 FF AE80 1F43B675 FF E788 FFFFFFFFFFFFFFFE EC83 010203 8184 0A0BFF0D A38A 8100 0002 02 00 01 AABBCC");
+        Bounded x = Due.fed("18538067 FF AE80 1F43B675 FF E788 FFFFFFFFFFFFFFFE EC83 010203 8184 0A0BFF0D A38A 8100 0002 02 00 01 AABBCC");
         Due.is("read", x.read(), 7);
         Due.is("child 0", x.part(0, 0), 1);
         Due.is("child 1", x.part(0, 1), 2);

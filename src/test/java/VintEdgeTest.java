@@ -22,7 +22,7 @@ public final class VintEdgeTest {
     private static void bytes() {
         for (int b = 0; b < 256; b++) {
             int same = b;
-            ElementFiles x = Edge.made(y -> {
+            Bounded x = Edge.made(y -> {
                 y.feed(0x8181, 2);
                 y.feed(same - 256, 1);
                 y.read();
@@ -38,7 +38,7 @@ public final class VintEdgeTest {
         for (int length = 1; length <= 8; length++) {
             for (int value = 0; value <= 64; value += 32) {
                 String size = Edge.vint(value, length);
-                ElementFiles x = Edge.good("EC" + size + "00".repeat(value), "EC@-1");
+                Bounded x = Edge.good("EC" + size + "00".repeat(value), "EC@-1");
                 Due.is("bytes of VOID with size " + size, x.value(0), value);
                 // Its last byte is not there: of the data, or, when it has none, of the size.
                 String whole = "EC" + size + "00".repeat(value);
@@ -53,7 +53,7 @@ public final class VintEdgeTest {
         for (int bit = 10; bit < 56; bit++) {
             Edge.fault("EC" + Edge.vint(1L << bit, 8) + "0000", ElementFiles.CUT, 0);
         }
-        ElementFiles x = Edge.good("EC 0100000000000200" + "00".repeat(512), "EC@-1");
+        Bounded x = Edge.good("EC 0100000000000200" + "00".repeat(512), "EC@-1");
         Due.is("a size of 512", x.value(0), 512);
     }
 
@@ -84,7 +84,7 @@ public final class VintEdgeTest {
             String data = "00".repeat(size);
             String size8 = Edge.vint(size, 8);
             for (String id : new String[] {"EC", "81"}) {
-                ElementFiles x = Edge.made(y -> Due.feed(y, id + size8 + data));
+                Bounded x = Edge.made(y -> Due.feed(y, id + size8 + data));
                 Due.is("read() with a size of " + size, x.read(), 1);
                 String due = id + (size < 127 ? Edge.vint(size, 1) : Edge.vint(size, 2)) + data;
                 Due.is("write() with a size of " + size, x.write(false), due.length() / 2);
@@ -94,7 +94,7 @@ public final class VintEdgeTest {
         // A master of 126 bytes, and one of 127.
         for (int size = 126; size <= 127; size++) {
             int rest = size - 68;
-            ElementFiles x = Edge.made(y -> {
+            Bounded x = Edge.made(y -> {
                 y.make(-1, Due.HEAD, 0);
                 y.make(0, Due.VOID, 64);
                 y.make(0, Due.VOID, rest);
@@ -131,7 +131,7 @@ public final class VintEdgeTest {
         String[] ids = {"80", "FF", "4000", "7FFF", "200000", "3FFFFF", "10000000", "1FFFFFFF", "406C", "20406C",
             "1A45DFA2", "1A45DFA4", "18538066", "18538068", "4285", "4287", "536D", "536F"};
         for (String id : ids) {
-            ElementFiles x = Edge.good(id + "80", id + "@-1");
+            Bounded x = Edge.good(id + "80", id + "@-1");
             Due.is("id() of " + id, x.id(0), Integer.parseInt(id, 16));
             Due.is("it is FOREIGN", x.value(0), 0);
             Due.is("write() of " + id, x.write(false), id.length() / 2 + 1);

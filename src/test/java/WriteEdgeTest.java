@@ -29,7 +29,7 @@ public final class WriteEdgeTest {
 
     private static void writes(String what, Edge.Run run, boolean live, String hex) {
         String due = Due.plain(hex);
-        ElementFiles x = Edge.made(run);
+        Bounded x = Edge.made(run);
         String tree = Edge.tree(x);
         Due.is("write(" + live + ") of " + what, x.write(live), due.length() / 2);
         Due.is("OUT of " + what, Due.out(x), due);
@@ -54,7 +54,7 @@ public final class WriteEdgeTest {
         writes("no elements", x -> { }, false, "");
         writes("no elements", x -> { }, true, "");
         // OUT has none then, whatever it had.
-        ElementFiles x = Edge.made(Edge::rich);
+        Bounded x = Edge.made(Edge::rich);
         x.clear();
         Due.is("write of none", x.write(false), 0);
         Due.is("OUT", Due.out(x), "");
@@ -300,7 +300,7 @@ public final class WriteEdgeTest {
     }
 
     /** VOIDs at the top which are written with so many bytes, 600 at the least. */
-    private static void bytes(ElementFiles x, int n) {
+    private static void bytes(Bounded x, int n) {
         for (int i = 0; i < 9; i++) {
             x.make(-1, Due.VOID, 64);
         }
@@ -401,7 +401,7 @@ public final class WriteEdgeTest {
             }
         };
         Edge.refused("too long behind a short one", run, x -> x.write(false), ElementFiles.LONG);
-        ElementFiles x = Edge.made(run);
+        Bounded x = Edge.made(run);
         x.write(false);
         Due.is("OUT then", Due.out(x), "EC820000");
         Due.is("take(true) then", x.take(true), 4);
@@ -411,7 +411,7 @@ public final class WriteEdgeTest {
 
     // "The elements of the TREE are numbered 0, 1, .. as they are written: a master before its children."
     private static void numbering() {
-        ElementFiles x = Edge.made(Edge::rich);
+        Bounded x = Edge.made(Edge::rich);
         String tree = Edge.tree(x);
         x.write(false);
         x.take(true);

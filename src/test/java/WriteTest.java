@@ -16,14 +16,14 @@ public final class WriteTest {
         Due.finish();
     }
 
-    private static void writes(String what, ElementFiles x, boolean live, String hex) {
+    private static void writes(String what, Bounded x, boolean live, String hex) {
         String due = Due.plain(hex);
         Due.is(what, x.write(live), due.length() / 2);
         Due.is(what, Due.out(x), due);
     }
 
     private static void number(long value, String data) {
-        ElementFiles x = new ElementFiles();
+        Bounded x = new Bounded();
         x.make(-1, Due.HEAD, 0);
         x.make(0, Due.VERSION, value);
         int size = data.length() / 2;
@@ -44,13 +44,13 @@ public final class WriteTest {
         number(Long.MAX_VALUE, "7FFFFFFFFFFFFFFF");
         number(-1, "FFFFFFFFFFFFFFFF");
         number(Long.MIN_VALUE, "8000000000000000");
-        ElementFiles x = Due.fed(HEAD + "89 4286 80 4286 83 000007");
+        Bounded x = Due.fed(HEAD + "89 4286 80 4286 83 000007");
         Due.is("read", x.read(), 3);
         writes("numbers that were read", x, false, HEAD + "88 4286 81 00 4286 81 07");
     }
 
     private static void textsAndVoids() {
-        ElementFiles x = new ElementFiles();
+        Bounded x = new Bounded();
         x.make(-1, Due.HEAD, 0);
         x.make(0, Due.TYPE, 5);
         x.make(0, Due.TYPE, 5);
@@ -59,13 +59,13 @@ public final class WriteTest {
         x.make(-1, Due.VOID, 2);
         x.make(-1, Due.VOID, 0);
         writes("made", x, false, HEAD + "88 4282 82 617E 4282 80 EC82 0000 EC80");
-        ElementFiles y = Due.fed(HEAD + "86 4282 83 610000 EC 4003 AABBCC");
+        Bounded y = Due.fed(HEAD + "86 4282 83 610000 EC 4003 AABBCC");
         Due.is("read", y.read(), 3);
         writes("read", y, false, HEAD + "84 4282 81 61 EC83 000000");
     }
 
     private static void checks() {
-        ElementFiles x = new ElementFiles();
+        Bounded x = new Bounded();
         x.make(-1, Due.HEAD, 0);
         x.make(0, Due.CHECK, 0);
         writes("of nothing", x, false, HEAD + "86 BF84 00000000");
@@ -93,20 +93,20 @@ public final class WriteTest {
     }
 
     private static void foreignOnes() {
-        ElementFiles x = Due.fed("1FFFFFFF 4002 0102 200000 80 4000 81 FF FF 82 0F00");
+        Bounded x = Due.fed("1FFFFFFF 4002 0102 200000 80 4000 81 FF FF 82 0F00");
         Due.is("read", x.read(), 4);
         writes("as they were", x, false, "1FFFFFFF 82 0102 200000 80 4000 81 FF FF 82 0F00");
-        ElementFiles y = Due.fed("81 407E" + "AB".repeat(126) + "82 407F" + "CD".repeat(127));
+        Bounded y = Due.fed("81 407E" + "AB".repeat(126) + "82 407F" + "CD".repeat(127));
         Due.is("read", y.read(), 2);
         writes("shortest sizes", y, false, "81 FE" + "AB".repeat(126) + "82 407F" + "CD".repeat(127));
     }
 
     private static void sizes() {
-        ElementFiles x = Due.fed(SEGMENT + "FF " + CLUSTER + "7FFF 8180 AE 4002 D780");
+        Bounded x = Due.fed(SEGMENT + "FF " + CLUSTER + "7FFF 8180 AE 4002 D780");
         Due.is("read", x.read(), 5);
         writes("known sizes", x, false, SEGMENT + "8C " + CLUSTER + "82 8180 AE 83 D78100");
         for (int voids = 0; voids < 6; voids++) {
-            ElementFiles y = new ElementFiles();
+            Bounded y = new Bounded();
             y.make(-1, Due.SEGMENT, 0);
             y.make(0, Due.VOID, 64);
             y.make(0, Due.VOID, 57 + voids);
@@ -118,7 +118,7 @@ public final class WriteTest {
     }
 
     private static void live() {
-        ElementFiles x = Due.withCluster();
+        Bounded x = Due.withCluster();
         x.make(-1, Due.HEAD, 0);
         x.make(0, Due.TRACK, 0);
         x.make(0, Due.CUE, 0);
@@ -130,7 +130,7 @@ public final class WriteTest {
     }
 
     private static void laced(int lacing, int[] sizes, String head) {
-        ElementFiles x = Due.withCluster();
+        Bounded x = Due.withCluster();
         StringBuilder bytes = new StringBuilder(head);
         for (int i = 0; i < sizes.length; i++) {
             x.frame(sizes[i], i);
@@ -172,13 +172,13 @@ public final class WriteTest {
         laced(3, new int[] {1, 0, 1, 300}, "FE FFFE 86 03 81 BE C0");
         laced(3, new int[] {0, 300, 0, 1}, "FE FFFE 86 03 80 612B 5ED3");
         // A long track is written short, and so are long sizes.
-        ElementFiles x = Due.fed(SEGMENT + "FF " + CLUSTER + "FF A38E 4001 0000 06 02 4001 2FFFFF AABBCC");
+        Bounded x = Due.fed(SEGMENT + "FF " + CLUSTER + "FF A38E 4001 0000 06 02 4001 2FFFFF AABBCC");
         Due.is("read", x.read(), 3);
         writes("the shortest", x, false, SEGMENT + "91" + CLUSTER + "8C A38A 81 0000 06 02 81 BF AABBCC");
     }
 
     private static void tooLong() {
-        ElementFiles x = new ElementFiles();
+        Bounded x = new Bounded();
         x.make(-1, Due.HEAD, 0);
         writes("first", x, false, HEAD + "80");
         x.clear();
@@ -199,7 +199,7 @@ public final class WriteTest {
         Due.is("its last byte", x.out(639), 0);
         Due.is("taken", x.take(true), 640);
         Due.is("read", x.read(), 10);
-        ElementFiles y = new ElementFiles();
+        Bounded y = new Bounded();
         y.make(-1, Due.SEGMENT, 0);
         for (int i = 0; i < 9; i++) {
             y.make(0, Due.VOID, 64);
