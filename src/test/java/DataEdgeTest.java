@@ -25,6 +25,7 @@ public final class DataEdgeTest {
         lacedFirstSizes();
         lacedDifferences();
         lacedDifferencesTooFar();
+        noVintBeginsWith0();
         Due.finish();
     }
 
@@ -420,5 +421,20 @@ public final class DataEdgeTest {
         // The sum of the sizes is all that is left, or one more than that.
         sized("0603 85 BF BF", 15, true, 5, 5, 5, 0);
         sized("0603 85 BF BF", 14, false);
+    }
+
+    // "A VINT of L bytes (1 to 8): the first byte has L - 1 bits 0, then a bit 1."
+    private static void noVintBeginsWith0() {
+        for (int length = 1; length <= 10; length++) {
+            // Were they a vint, these bytes would tell a track or a size of 5, and then a difference of 0.
+            String five = "00" + (length == 1 ? "" : "00".repeat(length - 2) + "05");
+            String same = "00" + (length == 1 ? "" : "3F" + "FF".repeat(length - 2));
+            String sameWithoutMark = "00" + (length == 1 ? "" : "7F" + "FF".repeat(length - 2));
+            block(five + "0000 00", false);
+            block(five + "0000 00" + "5D".repeat(20), false);
+            sized("0601" + five, 20, false);
+            sized("0602 85" + same, 20, false);
+            sized("0602 85" + sameWithoutMark, 20, false);
+        }
     }
 }
